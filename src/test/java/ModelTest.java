@@ -1,0 +1,337 @@
+import java.lang.reflect.InvocationTargetException;
+import java.lang.reflect.Method;
+import java.util.ArrayList;
+import java.util.Arrays;
+import java.util.HashMap;
+import java.util.List;
+import java.util.Map;
+import java.util.Random;
+
+/** Holds NoteDocument to PlainDocument by random runs of calls: the same answers, the same exceptions. */
+public final class ModelTest {
+    private static final Map<String, Method> OURS = methods(NoteDocument.class);
+    private static final Map<String, Method> PLAIN = methods(PlainDocument.class);
+
+    private static Map<String, Method> methods(Class<?> type) {
+        Map<String, Method> map = new HashMap<>();
+        for (Method m : type.getDeclaredMethods()) {
+            if (java.lang.reflect.Modifier.isPublic(m.getModifiers())) {
+                m.setAccessible(true);
+                map.put(m.getName(), m);
+            }
+        }
+        return map;
+    }
+
+    private final Random random;
+    private final NoteDocument ours = new NoteDocument();
+    private final PlainDocument plain = new PlainDocument();
+    private final List<String> log = new ArrayList<>();
+    private final List<int[]> grids = new ArrayList<>();
+    private int nodes;
+    private int notes;
+    private int calls;
+    private boolean isFine = true;
+    private final boolean isWild;
+    private final int most;
+
+    private ModelTest(long seed) {
+        random = new Random(seed);
+        isWild = random.nextInt(4) == 0;
+        most = random.nextInt(3) == 0 ? 512 : 60 + random.nextInt(200);
+    }
+
+    private static Object answer(Method method, Object on, Object... args) {
+        try {
+            return method.invoke(on, args);
+        } catch (InvocationTargetException e) {
+            if (e.getCause() instanceof StackOverflowError) {
+                throw (StackOverflowError) e.getCause();
+            }
+            return e.getCause().getClass().getName();
+        } catch (IllegalAccessException e) {
+            throw new AssertionError(e);
+        }
+    }
+
+    private Object call(String name, Object... args) {
+        if (!isFine || calls >= most) {
+            return null;
+        }
+        calls++;
+        Object one = answer(OURS.get(name), ours, args);
+        Object other = answer(PLAIN.get(name), plain, args);
+        log.add(name + Arrays.toString(args) + " = " + one);
+        if (one == null ? other != null : !one.equals(other)) {
+            isFine = false;
+            log.add("due is " + other);
+        }
+        return one;
+    }
+
+    private int upTo(int most) {
+        return random.nextInt(most + 1);
+    }
+
+    private int grid() {
+        return isWild && random.nextInt(30) == 0 ? random.nextInt(7) - 2 : random.nextInt(Math.max(1, grids.size()));
+    }
+
+    private int row(int grid) {
+        if (isWild && random.nextInt(30) == 0) {
+            return random.nextInt(14) - 2;
+        }
+        int rows = grid >= 0 && grid < grids.size() ? ours.rows(grid) : 1;
+        return random.nextInt(rows);
+    }
+
+    private int column(int grid) {
+        if (isWild && random.nextInt(30) == 0) {
+            return random.nextInt(8) - 2;
+        }
+        return grid >= 0 && grid < grids.size() ? random.nextInt(grids.get(grid)[1]) : 0;
+    }
+
+    private int node() {
+        if (isWild && random.nextInt(30) == 0) {
+            return random.nextInt(155) - 3;
+        }
+        int back = random.nextInt(3) == 0 ? 6 : nodes;
+        return nodes == 0 ? 0 : Math.max(0, nodes - 1 - random.nextInt(Math.max(1, back)));
+    }
+
+    private long small() {
+        switch (random.nextInt(12)) {
+            case 0:
+                return random.nextInt(2000) - 1000;
+            case 1:
+                return random.nextBoolean() ? PlainDocument.MOST : -PlainDocument.MOST;
+            case 2:
+                return random.nextLong() % (PlainDocument.MOST * (isWild ? 2 : 1));
+            default:
+                return random.nextInt(9) - 2;
+        }
+    }
+
+    private void makeGrid() {
+        int rows = isWild && random.nextInt(8) == 0 ? upTo(12) : 1 + upTo(random.nextInt(3) == 0 ? 9 : 4);
+        int columns = isWild && random.nextInt(8) == 0 ? upTo(7) : 1 + upTo(random.nextInt(3) == 0 ? 4 : 2);
+        if (call("grid", rows, columns) instanceof Integer) {
+            grids.add(new int[] {rows, columns});
+        }
+    }
+
+    private void made(Object answer) {
+        if (answer instanceof Integer) {
+            nodes = (Integer) answer + 1;
+        }
+    }
+
+    private void makeNode() {
+        int g = grid();
+        int r = row(g);
+        int c = column(g);
+        switch (random.nextInt(20)) {
+            case 0:
+            case 1:
+                made(call("number", small()));
+                break;
+            case 2:
+            case 3:
+            case 4:
+            case 5:
+                made(call("cell", g, r, c, random.nextInt(3) == 0));
+                break;
+            case 6:
+            case 7:
+                made(call("range", g, Math.min(r, row(g)), Math.min(c, column(g)), r, c));
+                break;
+            case 8:
+            case 9:
+            case 10:
+                int kind = random.nextInt(7);
+                int[] most = {0, 5, 1, 2, 0, 0, 9};
+                int of = kind == 0 ? 10 * g + c : upTo(most[kind]);
+                made(call("leaf", kind, isWild && random.nextInt(10) == 0 ? of + random.nextInt(9) - 4 : of));
+                break;
+            case 11:
+                made(call("when", node(), node(), node()));
+                break;
+            default:
+                int which = random.nextInt(10) < 4 ? 0 : random.nextInt(8);
+                int sign = which == 0 ? upTo(9) : which == 4 ? grid() : upTo(3);
+                if (isWild && random.nextInt(15) == 0) {
+                    sign += random.nextInt(9) - 4;
+                    which += random.nextInt(5) - 2;
+                }
+                made(call("node", which, sign, node(), node()));
+        }
+    }
+
+    private void change() {
+        int g = grid();
+        int r = row(g);
+        int c = column(g);
+        switch (random.nextInt(30)) {
+            case 0:
+            case 1:
+            case 2:
+            case 3:
+            case 4:
+                call("set", g, r, c, small());
+                break;
+            case 5:
+            case 6:
+            case 7:
+            case 8:
+            case 9:
+            case 10:
+                call("put", g, r, c, node());
+                break;
+            case 11:
+                call("erase", g, r, c);
+                break;
+            case 12:
+            case 13:
+                call("hold", g, r, c, small());
+                break;
+            case 14:
+                call("rounds", isWild ? upTo(52) : 1 + upTo(8));
+                break;
+            case 15:
+                call("name", isWild ? upTo(6) : upTo(5), random.nextInt(8) == 0 ? -1 : node());
+                break;
+            case 16:
+            case 17:
+                call("define", isWild ? upTo(4) : upTo(3), random.nextInt(8) == 0 ? -1 : node());
+                break;
+            case 18:
+                call("say", upTo(2), isWild ? upTo(22) : 1 + upTo(5));
+                break;
+            case 19:
+                call("show", upTo(2), g, r, c, upTo(isWild ? 3 : 2));
+                break;
+            case 20:
+                call("tick", upTo(isWild ? 1100000 : 1000000), upTo(50));
+                break;
+            default:
+                moveAbout(g, r, c);
+        }
+    }
+
+    private void moveAbout(int g, int r, int c) {
+        switch (random.nextInt(12)) {
+            case 0:
+                call("insert", g, isWild ? upTo(11) - 1 : r + upTo(1));
+                break;
+            case 1:
+                call("remove", g, r);
+                break;
+            case 2:
+                call("move", g, r, c, row(g), column(g));
+                break;
+            case 3:
+                call("sort", g, Math.min(r, row(g)), r, c);
+                break;
+            case 4:
+            case 5:
+                call("overlay", isWild ? upTo(3) : upTo(2), g, r, c, small());
+                break;
+            case 6:
+                call("drop", upTo(2));
+                break;
+            case 7:
+            case 8:
+            case 9:
+                call("undo");
+                break;
+            case 10:
+                call("setWay", isWild ? upTo(3) : random.nextInt(2) * upTo(2));
+                break;
+            default:
+                if (notes < 3) {
+                    notes++;
+                    call("note");
+                }
+        }
+    }
+
+    private void look() {
+        int g = grid();
+        int r = row(g);
+        int c = column(g);
+        String[] names = {"kind", "value", "spills", "through", "cause", "kindFromNothing", "valueFromNothing"};
+        switch (random.nextInt(14)) {
+            case 0:
+                call("calculate");
+                break;
+            case 1:
+                call("length", upTo(2));
+                call("letter", upTo(2), upTo(20));
+                break;
+            case 2:
+                call(random.nextBoolean() ? "kindIn" : "valueIn", upTo(2), g, r, c);
+                break;
+            case 3:
+                call("seek", g, 10 * r + c, 10 * row(g) + column(g), small(), upTo(20) - 10, upTo(isWild ? 41 : 12));
+                break;
+            case 4:
+                call("torn");
+                call("rows", g);
+                break;
+            default:
+                call(names[random.nextInt(names.length)], g, r, c);
+        }
+        call("runs");
+        call("calls");
+    }
+
+    private boolean run() {
+        int many = 1 + upTo(2);
+        for (int i = 0; i < many; i++) {
+            makeGrid();
+        }
+        if (random.nextBoolean()) {
+            notes++;
+            call("note");
+        }
+        int first = 5 + upTo(30);
+        for (int i = 0; i < first; i++) {
+            makeNode();
+        }
+        while (isFine && calls < most) {
+            int what = random.nextInt(10);
+            if (what == 0) {
+                makeNode();
+            } else if (what < 6) {
+                change();
+            } else {
+                look();
+            }
+            if (random.nextInt(200) == 0) {
+                makeGrid();
+            }
+        }
+        if (!isFine) {
+            log.forEach(System.out::println);
+        }
+        return isFine;
+    }
+
+    public static void main(String[] args) {
+        long from = args.length > 0 ? Long.parseLong(args[0]) : 1;
+        int many = args.length > 1 ? Integer.parseInt(args[1]) : 1500;
+        int passed = 0;
+        int failed = 0;
+        for (long seed = from; seed < from + many && failed < 3; seed++) {
+            if (new ModelTest(seed).run()) {
+                passed++;
+            } else {
+                failed++;
+                System.out.println("seed " + seed + " went wrong");
+            }
+        }
+        System.out.println(passed + " passed, " + failed + " failed");
+        System.exit(failed == 0 ? 0 : 1);
+    }
+}
