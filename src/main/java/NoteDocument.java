@@ -733,21 +733,25 @@ public final class NoteDocument {
     private static final class Words {
         static final long MOST = 1000000000000000L;
         static final int TAG = 56;
+        static final int ROW_TAG = 3;
         static final long EMPTY = 1L << TAG;
         static final long ERROR = 2L << TAG;
-        static final long ROW = 3L << TAG;
+        static final long ROW = (long) ROW_TAG << TAG;
         static final long FORMULA = 4L << TAG;
         static final int KIND = 40;
         static final long LOW = 0x7fffffffL;
 
-        static final int BY_ZERO = 1;
-        static final int RANGE = 2;
-        static final int TORN = 3;
         static final int CIRCLE = 4;
-        static final int BLOCKED = 5;
-        static final int ROWS = 6;
-        static final int UNLIKE = 7;
-        static final int NOTHING = 8;
+
+        // Errors that have come through no cell yet, by their kinds.
+        static final long BY_ZERO = ERROR | 1L << KIND;
+        static final long OUT_OF_RANGE = ERROR | 2L << KIND;
+        static final long TORN = ERROR | 3L << KIND;
+        static final long IN_CIRCLE = ERROR | (long) CIRCLE << KIND;
+        static final long BLOCKED = ERROR | 5L << KIND;
+        static final long NO_ROW = ERROR | 6L << KIND;
+        static final long UNLIKE = ERROR | 7L << KIND;
+        static final long NOTHING = ERROR | 8L << KIND;
 
         static boolean isInRange(long number) {
             return number >= -MOST && number <= MOST;
@@ -762,7 +766,7 @@ public final class NoteDocument {
         }
 
         static boolean isRow(long word) {
-            return word >> TAG == 3;
+            return word >> TAG == ROW_TAG;
         }
 
         static boolean isFormula(long word) {
@@ -779,10 +783,6 @@ public final class NoteDocument {
 
         static int nodeOf(long word) {
             return (int) (word & LOW) >> 1;
-        }
-
-        static long error(int kind) {
-            return ERROR | (long) kind << KIND;
         }
 
         static int errorOf(long word) {
@@ -814,14 +814,14 @@ public final class NoteDocument {
 
         /** A value taken as a number: an error stays, an empty value is 0, a row is an error. */
         static long taken(long word) {
-            if (isRow(word)) {
-                return error(ROWS);
+            if (word >> TAG == ROW_TAG) {
+                return NO_ROW;
             }
             return word == EMPTY ? 0 : word;
         }
 
         static long ranged(long number) {
-            return isInRange(number) ? number : error(RANGE);
+            return number >= -MOST && number <= MOST ? number : OUT_OF_RANGE;
         }
 
         /** Two values that are no rows, each taken as a number, by the sign of a TWO. */
@@ -842,9 +842,9 @@ public final class NoteDocument {
                 case 2:
                     return product(a, b);
                 case 3:
-                    return b == 0 ? error(BY_ZERO) : ranged(Math.floorDiv(a, b));
+                    return b == 0 ? BY_ZERO : ranged(Math.floorDiv(a, b));
                 case 4:
-                    return b == 0 ? error(BY_ZERO) : Math.floorMod(a, b);
+                    return b == 0 ? BY_ZERO : Math.floorMod(a, b);
                 case 5:
                     return Math.min(a, b);
                 case 6:
@@ -854,14 +854,14 @@ public final class NoteDocument {
                 case 8:
                     return a == b ? 1 : 0;
                 default:
-                    return b == 0 ? error(BY_ZERO) : ranged((long) ((float) a / (float) b * 1000f));
+                    return b == 0 ? BY_ZERO : ranged((long) ((float) a / (float) b * 1000f));
             }
         }
 
         /** A product is looked at ahead of multiplying, for it can be too large even for a long. */
         private static long product(long a, long b) {
             if (a != 0 && Math.abs(b) > MOST / Math.abs(a)) {
-                return error(RANGE);
+                return OUT_OF_RANGE;
             }
             return a * b;
         }
@@ -1092,35 +1092,36 @@ public final class NoteDocument {
             return cell[at];
         }
 
-        /** The chain that goes through a cell, then through another chain. */
-        int through(int first, int chain) {
+        /** A value as the result of a cell: an error in it has come through that cell, too. */
+        long pass(int first, long word) {
+            if (!Words.isError(word)) {
+                return word;
+            }
+            int chain = Words.chainOf(word);
             int at = firstLikely[slot(first, chain)];
             for (int i = 0; i < count && at > 0; i++) {
                 if (cell[at] == first && behind[at] == chain) {
-                    return at;
+                    break;
                 }
                 at = nextLikely[at];
             }
-            if (count >= cell.length) {
+            if (at <= 0) {
                 grow();
+                at = add(first, chain);
             }
-            return add(first, chain);
+            return Words.ERROR | (long) Words.errorOf(word) << Words.KIND | at;
         }
 
         private int add(int first, int chain) {
             int at = count;
+            int slot = slot(first, chain);
             cell[at] = first;
             behind[at] = chain;
             size[at] = size[chain] + 1;
-            enter(at);
-            count++;
-            return at;
-        }
-
-        private void enter(int at) {
-            int slot = slot(cell[at], behind[at]);
             nextLikely[at] = firstLikely[slot];
             firstLikely[slot] = at;
+            count++;
+            return at;
         }
 
         private int slot(int first, int chain) {
@@ -1128,15 +1129,21 @@ public final class NoteDocument {
             return (mixed ^ mixed >>> 15) & firstLikely.length - 1;
         }
 
+        /** Makes room for one more chain. */
         private void grow() {
+            if (count < cell.length) {
+                return;
+            }
             int larger = cell.length * 2;
             cell = Arrays.copyOf(cell, larger);
             behind = Arrays.copyOf(behind, larger);
             size = Arrays.copyOf(size, larger);
-            nextLikely = Arrays.copyOf(nextLikely, larger);
+            nextLikely = new int[larger];
             firstLikely = new int[larger];
             for (int i = 1; i < count; i++) {
-                enter(i);
+                int slot = slot(cell[i], behind[i]);
+                nextLikely[i] = firstLikely[slot];
+                firstLikely[slot] = i;
             }
         }
     }
@@ -1175,7 +1182,7 @@ public final class NoteDocument {
         }
 
         int countOf(long word) {
-            return Words.isRow(word) ? (int) words[Words.pointerOf(word)] : 1;
+            return word >> Words.TAG == Words.ROW_TAG ? (int) words[(int) (word & Words.LOW)] : 1;
         }
 
         int lengthOf(long text) {
@@ -1184,10 +1191,10 @@ public final class NoteDocument {
 
         /** The value at a place of a row, from 0; what is no row has its value at 0. */
         long itemOf(long word, int place) {
-            if (!Words.isRow(word)) {
+            if (word >> Words.TAG != Words.ROW_TAG) {
                 return place == 0 ? word : Words.EMPTY;
             }
-            int at = Words.pointerOf(word);
+            int at = (int) (word & Words.LOW);
             return place >= 0 && place < words[at] ? words[at + 1 + place] : Words.EMPTY;
         }
 
@@ -1395,14 +1402,15 @@ public final class NoteDocument {
                 low[reader] = Math.min(low[reader], order[entry]);
                 isInCircle[entry] = true;
                 // The chain of one cell has the number of that cell and 1.
-                return Words.ERROR | (long) Words.CIRCLE << Words.KIND | (entry < CELLS ? entry + 1 : 0);
+                return Words.IN_CIRCLE | (entry < CELLS ? entry + 1 : 0);
             }
             boolean isAtHand = isFresh ? freshChecked[entry] == freshNow : checked[entry] == now;
-            if (!isAtHand) {
+            int record = isFresh ? freshRecord[entry] : state.record[entry];
+            if (!isAtHand || record <= 0) {
                 missing = entry;
                 return Words.EMPTY;
             }
-            return heap.words[(isFresh ? freshRecord[entry] : state.record[entry]) + 1];
+            return heap.words[record + 1];
         }
 
         /** What a name stands for, the body of a function, how many parts a note has. */
@@ -1463,7 +1471,7 @@ public final class NoteDocument {
         }
 
         int writeCircle(int entry) {
-            long value = Words.error(Words.CIRCLE) | (entry < CELLS ? entry + 1 : 0);
+            long value = Words.IN_CIRCLE | (entry < CELLS ? entry + 1 : 0);
             if (entry >= NOTE_ENTRY) {
                 int text = heap.open(2);
                 heap.words[text + 1] = '!';
@@ -1538,7 +1546,7 @@ public final class NoteDocument {
                 case Nodes.FOLD:
                     return foldOf(sign, first);
                 case Nodes.LIST:
-                    return listOf(sign, first);
+                    return sign == 0 ? countedTo(Words.taken(first)) : listOf(sign, first);
                 case Nodes.ITEM:
                     return itemOf(first, second);
                 case Nodes.PICK:
@@ -1556,7 +1564,7 @@ public final class NoteDocument {
                 case Nodes.CELL:
                 case Nodes.SPILL:
                     if (!nodes.isThere(node)) {
-                        return Words.error(Words.TORN);
+                        return Words.TORN;
                     }
                     int cell = of * GRID_CELLS + state.refRow[node] * MOST_COLUMNS + state.refColumn[node];
                     return readCell(cell, nodes.kind[node] == Nodes.SPILL);
@@ -1564,7 +1572,7 @@ public final class NoteDocument {
                     return thing(NAME_ENTRY + of);
                 case Nodes.GIVEN:
                     if (given < 0) {
-                        return Words.error(Words.NOTHING);
+                        return Words.NOTHING;
                     }
                     return of == 0 ? given : alsoGiven;
                 case Nodes.LENGTH:
@@ -1613,7 +1621,7 @@ public final class NoteDocument {
             int grid = nodes.of[node];
             boolean isRange = nodes.kind[node] == Nodes.RANGE;
             if (isRange && !nodes.isThere(node)) {
-                return Words.error(Words.TORN);
+                return Words.TORN;
             }
             int top = isRange ? state.refRow[node] : 0;
             int bottom = isRange ? state.refToRow[node] : state.rows[grid] - 1;
@@ -1644,7 +1652,7 @@ public final class NoteDocument {
             }
             int count = heap.countOf(isFirstRow ? first : second);
             if (isFirstRow && isSecondRow && count != heap.countOf(second)) {
-                return Words.error(Words.UNLIKE);
+                return Words.UNLIKE;
             }
             int row = heap.open(count);
             for (int i = 0; i < count; i++) {
@@ -1658,7 +1666,7 @@ public final class NoteDocument {
         /** An error stays, what is no row is an error; of a row the first error in it, or empty. */
         private long faultOf(long word, boolean isLookedInto) {
             if (!Words.isRow(word)) {
-                return Words.isError(word) ? word : Words.error(Words.ROWS);
+                return Words.isError(word) ? word : Words.NO_ROW;
             }
             int count = isLookedInto ? heap.countOf(word) : 0;
             for (int i = 0; i < count; i++) {
@@ -1694,15 +1702,12 @@ public final class NoteDocument {
                 return numbers;
             }
             if (numbers == 0) {
-                return Words.error(Words.NOTHING);
+                return Words.NOTHING;
             }
             return sign == 2 ? greatest : least;
         }
 
         private long listOf(int sign, long word) {
-            if (sign == 0) {
-                return countedTo(Words.taken(word));
-            }
             long fault = faultOf(word, sign != 1);
             if (fault != Words.EMPTY) {
                 return fault;
@@ -1720,7 +1725,7 @@ public final class NoteDocument {
             }
             heap.words[row] = size;
             if (size == 0) {
-                return Words.error(Words.NOTHING);
+                return Words.NOTHING;
             }
             if (sign == 2) {
                 sortNumbers(row + 1, size);
@@ -1733,7 +1738,7 @@ public final class NoteDocument {
                 return number;
             }
             if (number < 1 || number > 20) {
-                return Words.error(Words.RANGE);
+                return Words.OUT_OF_RANGE;
             }
             int row = heap.open((int) number);
             for (int i = 1; i <= number; i++) {
@@ -1763,7 +1768,7 @@ public final class NoteDocument {
                 return place;
             }
             if (place < 1 || place > heap.countOf(first)) {
-                return Words.error(Words.NOTHING);
+                return Words.NOTHING;
             }
             return heap.itemOf(first, (int) place - 1);
         }
@@ -1778,7 +1783,7 @@ public final class NoteDocument {
                 return column;
             }
             if (row < 0 || row >= state.rows[grid] || column < 0 || column >= state.columns[grid]) {
-                return Words.error(Words.TORN);
+                return Words.TORN;
             }
             return readCell(grid * GRID_CELLS + (int) row * MOST_COLUMNS + (int) column, false);
         }
@@ -1791,7 +1796,7 @@ public final class NoteDocument {
                 return second;
             }
             if (first < 0 || first >= GIVENS || second < 0 || second >= GIVENS) {
-                return Words.error(Words.RANGE);
+                return Words.OUT_OF_RANGE;
             }
             int entry = FUNCTION_ENTRY + (function * GIVENS + (int) first) * GIVENS + (int) second;
             long word = desk.look(entry);
@@ -1812,7 +1817,7 @@ public final class NoteDocument {
             int row = heap.open(count);
             for (int i = 0; i < count && desk.missing < 0; i++) {
                 long word = callOf(function, Words.taken(heap.itemOf(first, i)), number);
-                heap.words[row + 1 + i] = Words.isRow(word) ? Words.error(Words.ROWS) : word;
+                heap.words[row + 1 + i] = Words.isRow(word) ? Words.NO_ROW : word;
             }
             return Words.ROW | row;
         }
@@ -1824,23 +1829,16 @@ public final class NoteDocument {
             }
             int count = heap.countOf(word);
             if (count == 1) {
-                return through(cell, heap.itemOf(word, 0));
+                return chains.pass(cell, heap.itemOf(word, 0));
             }
             if (!hasRoom(cell, count)) {
-                return through(cell, Words.error(Words.BLOCKED));
+                return chains.pass(cell, Words.BLOCKED);
             }
             int row = heap.open(count);
             for (int i = 0; i < count; i++) {
-                heap.words[row + 1 + i] = through(cell, heap.itemOf(word, i));
+                heap.words[row + 1 + i] = chains.pass(cell, heap.itemOf(word, i));
             }
             return Words.ROW | row;
-        }
-
-        private long through(int cell, long word) {
-            if (!Words.isError(word)) {
-                return word;
-            }
-            return Words.error(Words.errorOf(word)) | chains.through(cell, Words.chainOf(word));
         }
 
         private boolean hasRoom(int cell, int count) {
@@ -1864,7 +1862,7 @@ public final class NoteDocument {
             for (int i = 0; i < state.partCount[note] && desk.missing < 0; i++) {
                 int part = state.parts[note * MOST_PARTS + i];
                 if (part == State.TORN_PART) {
-                    text.append(Words.error(Words.TORN), 0);
+                    text.append(Words.TORN, 0);
                 } else if (part < State.TORN_PART) {
                     text.repeat('a', part);
                 } else {
@@ -2037,7 +2035,7 @@ public final class NoteDocument {
                     word = runner.textOf(entry - NOTE_ENTRY);
                 } else {
                     giveTo(entry);
-                    word = own < 0 ? Words.error(Words.NOTHING) : runner.evaluate(own, 0);
+                    word = own < 0 ? Words.NOTHING : runner.evaluate(own, 0);
                 }
             }
             if (desk.missing >= 0) {
