@@ -1559,40 +1559,47 @@ public final class NoteDocument {
         }
 
         private long leafOf(int node) {
+            int kind = nodes.kind[node];
             int of = nodes.of[node];
-            switch (nodes.kind[node]) {
-                case Nodes.CELL:
-                case Nodes.SPILL:
-                    if (!nodes.isThere(node)) {
-                        return Words.TORN;
-                    }
-                    int cell = of * GRID_CELLS + state.refRow[node] * MOST_COLUMNS + state.refColumn[node];
-                    return readCell(cell, nodes.kind[node] == Nodes.SPILL);
-                case Nodes.NAME:
-                    return thing(NAME_ENTRY + of);
-                case Nodes.GIVEN:
-                    if (given < 0) {
-                        return Words.NOTHING;
-                    }
-                    return of == 0 ? given : alsoGiven;
-                case Nodes.LENGTH:
-                    long shown = thing(NOTE_ENTRY + of);
-                    return Words.isRow(shown) ? heap.lengthOf(shown) : 2;
-                case Nodes.TIME:
-                    return thing(CLOCK);
-                case Nodes.TICKS:
-                    return thing(COUNTER);
-                case Nodes.DRAWN:
-                    return thing(DRAW + of);
-                default:
-                    return nodes.number[node];
+            if (kind == Nodes.NUMBER) {
+                return nodes.number[node];
             }
+            if (kind == Nodes.GIVEN) {
+                if (given < 0) {
+                    return Words.NOTHING;
+                }
+                return of == 0 ? given : alsoGiven;
+            }
+            if (kind == Nodes.CELL || kind == Nodes.SPILL) {
+                if (!nodes.isThere(node)) {
+                    return Words.TORN;
+                }
+                int cell = of * GRID_CELLS + state.refRow[node] * MOST_COLUMNS + state.refColumn[node];
+                return readCell(cell, kind == Nodes.SPILL);
+            }
+            int key = keyOf(kind, of);
+            long word = desk.thingOf(key, key);
+            desk.add(key, word);
+            if (kind == Nodes.LENGTH) {
+                // What a note in a circle shows has 2 characters.
+                return Words.isRow(word) ? heap.lengthOf(word) : 2;
+            }
+            return word;
         }
 
-        private long thing(int key) {
-            long word = desk.thingOf(key, -1);
-            desk.add(key, word);
-            return word;
+        private static int keyOf(int kind, int of) {
+            switch (kind) {
+                case Nodes.NAME:
+                    return NAME_ENTRY + of;
+                case Nodes.LENGTH:
+                    return NOTE_ENTRY + of;
+                case Nodes.TIME:
+                    return CLOCK;
+                case Nodes.TICKS:
+                    return COUNTER;
+                default:
+                    return DRAW + of;
+            }
         }
 
         /** The value of a cell, of a row its first one, unless it is wanted whole. */
