@@ -727,17 +727,21 @@ public final class NoteDocument {
     }
 
     /**
-     * How values and contents stand in one long: a number as it is, all else behind a tag in the
-     * highest byte. A row points into the heap, an error tells its kind and its chain.
+     * How values and contents stand in the lower 53 bits of a long: a number as it is, all else behind
+     * a tag. A row points into the heap, an error tells its kind and its chain, a formula its node.
+     * The upper 11 bits are free for the key of what was read.
      */
     private static final class Words {
         static final long MOST = 1000000000000000L;
-        static final int TAG = 56;
-        static final int ROW_TAG = 3;
+        static final int KEY = 53;
+        static final int ABOVE = 64 - KEY;
+        static final int TAG = 50;
+        static final int ROW_TAG = 2;
         static final long EMPTY = 1L << TAG;
-        static final long ERROR = 2L << TAG;
+        static final long ERROR = EMPTY;
         static final long ROW = (long) ROW_TAG << TAG;
-        static final long FORMULA = 4L << TAG;
+        static final long FORMULA = 3L << TAG;
+        // An error of no kind would be what is empty.
         static final int KIND = 40;
         static final long LOW = 0x7fffffffL;
 
@@ -762,7 +766,7 @@ public final class NoteDocument {
         }
 
         static boolean isError(long word) {
-            return word >> TAG == 2;
+            return word >> TAG == 1 && word != EMPTY;
         }
 
         static boolean isRow(long word) {
@@ -770,11 +774,23 @@ public final class NoteDocument {
         }
 
         static boolean isFormula(long word) {
-            return word >> TAG == 4;
+            return word >> TAG == 3;
         }
 
         static boolean isHeld(long word) {
             return (word & 1) == 1;
+        }
+
+        static int keyOf(long keyed) {
+            return (int) (keyed >>> KEY);
+        }
+
+        static long unkeyed(long keyed) {
+            return keyed << ABOVE >> ABOVE;
+        }
+
+        static long rekeyed(long keyed, long word) {
+            return keyed >>> KEY << KEY | word << ABOVE >>> ABOVE;
         }
 
         static long formula(int node) {
@@ -1250,12 +1266,12 @@ public final class NoteDocument {
             }
             int reads = (int) (words[from] >> 1);
             int to = movedTop;
-            System.arraycopy(words, from, moved, to, 2 + 2 * reads);
-            movedTop += 2 + 2 * reads;
+            System.arraycopy(words, from, moved, to, 2 + reads);
+            movedTop += 2 + reads;
             words[from] = -to;
             moved[to + 1] = moveRow(moved[to + 1]);
-            for (int i = 0; i < reads; i++) {
-                moved[to + 3 + 2 * i] = moveRow(moved[to + 3 + 2 * i]);
+            for (int i = to + 2; i < to + 2 + reads; i++) {
+                moved[i] = Words.rekeyed(moved[i], moveRow(Words.unkeyed(moved[i])));
             }
             return to;
         }
@@ -1303,8 +1319,7 @@ public final class NoteDocument {
         private final boolean[] isInCircle = new boolean[ENTRIES];
         int reader;
         int missing = -1;
-        private final int[] readKey = new int[THINGS];
-        private final long[] readWord = new long[THINGS];
+        private final long[] reads = new long[THINGS];
         private final int[] readTurn = new int[THINGS];
         private int readCount;
         private int turn;
@@ -1453,20 +1468,16 @@ public final class NoteDocument {
         void add(int key, long word) {
             if (!isFresh && readTurn[key] != turn) {
                 readTurn[key] = turn;
-                readKey[readCount] = key;
-                readWord[readCount] = word;
+                reads[readCount] = (long) key << Words.KEY | word << Words.ABOVE >>> Words.ABOVE;
                 readCount++;
             }
         }
 
         int writeRecord(long value) {
-            int at = heap.open(1 + 2 * readCount);
+            int at = heap.open(1 + readCount);
             heap.words[at] = 2L * readCount;
             heap.words[at + 1] = value;
-            for (int i = 0; i < readCount; i++) {
-                heap.words[at + 2 + 2 * i] = readKey[i];
-                heap.words[at + 3 + 2 * i] = readWord[i];
-            }
+            System.arraycopy(reads, 0, heap.words, at + 2, readCount);
             return at;
         }
 
@@ -1951,7 +1962,7 @@ public final class NoteDocument {
     private static final class Finder {
         private static final int TURNS = 1000000;
         // A run makes at most 40 rows of 50 values, and notes each thing once.
-        private static final int RUN_ROOM = 40 * 51 + 2 * THINGS + 256;
+        private static final int RUN_ROOM = 40 * 51 + THINGS + 256;
         private static final int ANEW = -1;
 
         private final Desk desk;
@@ -2014,12 +2025,13 @@ public final class NoteDocument {
             int record = desk.recordOf(entry);
             int count = (int) (heap.words[record] >> 1);
             for (int i = at[depth - 1]; i < count; i++) {
-                long word = desk.thingOf((int) heap.words[record + 2 + 2 * i], entry);
+                long read = heap.words[record + 2 + i];
+                long word = desk.thingOf(Words.keyOf(read), entry);
                 if (desk.missing >= 0) {
                     at[depth - 1] = i;
                     return;
                 }
-                if (!heap.isSame(word, heap.words[record + 3 + 2 * i])) {
+                if (!heap.isSame(word, Words.unkeyed(read))) {
                     at[depth - 1] = ANEW;
                     return;
                 }
