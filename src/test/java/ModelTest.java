@@ -286,6 +286,37 @@ public final class ModelTest {
         call("calls");
     }
 
+    /** Any call with any arguments. */
+    private void reckless() {
+        List<String> names = new ArrayList<>(PLAIN.keySet());
+        names.sort(null);
+        String name = names.get(random.nextInt(names.size()));
+        Class<?>[] types = PLAIN.get(name).getParameterTypes();
+        int[] edges = {-1, 0, 0, 0, 1, 1, 2, 3, 4, 5, 9, 10, 11, 20, 40, 41, 50, 149, 150, 1000, 1000001,
+            Integer.MIN_VALUE, Integer.MAX_VALUE};
+        Object[] args = new Object[types.length];
+        for (int i = 0; i < args.length; i++) {
+            int edge = edges[random.nextInt(random.nextBoolean() ? 10 : edges.length)];
+            if (types[i] == boolean.class) {
+                args[i] = random.nextBoolean();
+            } else if (types[i] == long.class) {
+                args[i] = random.nextInt(10) == 0 ? random.nextLong() : (Long) (long) edge;
+            } else {
+                args[i] = edge;
+            }
+        }
+        Object answer = call(name, args);
+        if (name.equals("grid") && answer instanceof Integer) {
+            grids.add(new int[] {(Integer) args[0], (Integer) args[1]});
+        }
+        if (name.equals("note") && answer instanceof Integer) {
+            notes++;
+        }
+        if (List.of("number", "cell", "range", "leaf", "node", "when").contains(name)) {
+            made(answer);
+        }
+    }
+
     private boolean run() {
         int many = 1 + upTo(2);
         for (int i = 0; i < many; i++) {
@@ -310,6 +341,9 @@ public final class ModelTest {
             }
             if (random.nextInt(200) == 0) {
                 makeGrid();
+            }
+            if (isWild && random.nextInt(5) == 0) {
+                reckless();
             }
         }
         if (!isFine) {
