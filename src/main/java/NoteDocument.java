@@ -1170,7 +1170,7 @@ public final class NoteDocument {
      * was read (and 1 more in a circle), the value, and what was read with what it was then.
      */
     private static final class Heap {
-        private static final int FIRST_SIZE = 1 << 14;
+        private static final int FIRST_SIZE = 1 << 13;
 
         long[] words = new long[FIRST_SIZE];
         private long[] moved = new long[1];

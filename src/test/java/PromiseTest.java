@@ -116,6 +116,8 @@ public final class PromiseTest {
         due("grid(2, 3)", x.grid(2, 3), 2);
         due("grid(3, 2)", x.grid(3, 2), 3);
         thrown("a fifth grid", STATE, () -> x.grid(1, 1));
+        thrown("a column of a fifth grid", ARGUMENT, () -> x.leaf(0, 40));
+        thrown("PICK of a fifth grid", ARGUMENT, () -> x.node(PICK, 4, 0, 0));
         thrown("a fifth grid out of range", ARGUMENT, () -> x.grid(1, 6));
         NoteDocument y = document(2, 2);
         y.set(0, 0, 0, 1);
@@ -260,6 +262,12 @@ public final class PromiseTest {
         due("a row", z.rounds(5), 0);
         due("it stays", z.value(0, 0, 0), 5);
         due("no held cells", document(1, 1).rounds(1), 0);
+        z.put(0, 0, 1, z.number(6));
+        z.put(0, 1, 1, z.cell(0, 0, 1, false));
+        z.hold(0, 0, 1, 5);
+        due("who reads it gets what is held", z.value(0, 1, 1), 5);
+        z.rounds(1);
+        due("what is held has changed", z.value(0, 1, 1), 6);
     }
 
     private static void leaves() {
@@ -520,9 +528,17 @@ public final class PromiseTest {
         due("ITEM of no row", x.value(0, 0, 0), 6);
         x.put(0, 0, 0, x.node(ITEM, 0, list, error));
         due("ITEM at an error", x.value(0, 0, 0), 1);
+        x.put(0, 0, 0, x.node(ITEM, 0, x.node(TWO, 3, three, x.node(TWO, 1, list, three)), x.number(1)));
+        due("ITEM of a row with an error", x.value(0, 0, 0), -2);
+        x.put(0, 0, 0, x.node(ITEM, 0, list, x.number(1)));
+        due("the first ITEM", x.value(0, 0, 0), 1);
         x.put(0, 0, 1, list);
         x.put(0, 0, 0, x.node(PICK, 0, x.number(2), x.number(1)));
         due("PICK", x.value(0, 0, 0), 3);
+        x.put(0, 0, 0, x.node(PICK, 0, zero, x.number(1)));
+        due("PICK of the first row", x.value(0, 0, 0), 1);
+        x.put(0, 0, 0, x.node(PICK, 0, zero, three));
+        due("PICK of no column", x.kind(0, 0, 0), 2);
         x.put(0, 0, 0, x.node(PICK, 0, x.number(5), zero));
         due("PICK of none", x.value(0, 0, 0), 3);
         due("an error", x.kind(0, 0, 0), 2);
@@ -558,6 +574,8 @@ public final class PromiseTest {
         due("13", x.value(0, 0, 0), 2);
         x.put(0, 0, 0, x.node(CALL, 2, zero, x.number(-1)));
         due("-1", x.value(0, 0, 0), 2);
+        x.put(0, 0, 0, x.node(CALL, 2, zero, x.number(13)));
+        due("13 as the second one", x.value(0, 0, 0), 2);
         due("calls", x.calls(), 2);
         int list = x.node(LIST, 0, x.number(3), 0);
         x.put(0, 0, 0, x.node(EACH, 2, list, zero));
@@ -567,6 +585,10 @@ public final class PromiseTest {
         due("EACH of 6", x.value(0, 0, 0), 6);
         due("EACH of 18", x.value(0, 2, 0), 2);
         due("stands in the row", x.kind(0, 2, 0), 2);
+        x.put(0, 0, 0, x.node(EACH, 2, x.node(TWO, 3, twelve, x.node(TWO, 1, list, x.number(2))), zero));
+        due("EACH of an error", x.value(0, 1, 0), 1);
+        due("EACH of what is behind it", x.value(0, 2, 0), 12);
+        due("EACH of what is out of range", x.value(0, 0, 0), 2);
         x.put(0, 0, 0, x.node(EACH, 2, twelve, zero));
         due("EACH of no row", x.value(0, 0, 0), 6);
         x.put(0, 0, 0, x.node(EACH, 2, list, list));
@@ -768,8 +790,14 @@ public final class PromiseTest {
         x.undo();
         x.undo();
         due("undo", x.value(0, 4, 1), 11);
+        due("LENGTH of another note", lengthOf(x, 1), 0);
         x.remove(0, 0);
         due("torn cells", text(x, 0).equals("aa!3!3"));
+    }
+
+    private static long lengthOf(NoteDocument x, int note) {
+        x.put(0, 3, 1, x.leaf(3, note));
+        return x.value(0, 3, 1);
     }
 
     private static void ticks() {
@@ -1286,6 +1314,7 @@ public final class PromiseTest {
         thrown("a formula", STATE, () -> x.seek(0, 11, 0, 0, 0, 1));
         thrown("nothing", STATE, () -> x.seek(0, 30, 0, 0, 0, 1));
         x.overlay(0, 0, 0, 0, 3);
+        due("the greatest least", x.seek(0, 0, 11, 1000 * 1000, 1000, 1), 1000);
         due("scenarios count for nothing", x.seek(0, 0, 11, 50, 0, 40), 8);
     }
 
