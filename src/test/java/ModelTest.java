@@ -317,7 +317,67 @@ public final class ModelTest {
         }
     }
 
+    /** Many rows that spill, and what reads them: found anew by each change, so that the room must be tidied. */
+    private void makeRich() {
+        call("grid", 10, 5);
+        grids.add(new int[] {10, 5});
+        made(call("cell", 0, 0, 0, false));
+        made(call("number", 4L));
+        made(call("node", 2, 0, 1, 0));
+        made(call("node", 0, 0, 2, 0));
+        for (int i = 1; i < 4; i++) {
+            call("put", 0, i, i, 3);
+            int spill = nodes;
+            made(call("cell", 0, i, i, true));
+            made(call("node", 2, 1, spill, 0));
+            call("name", i, nodes - 1);
+            made(call("leaf", 1, i));
+            made(call("node", 1, i % 3, nodes - 1, 0));
+            call("put", 0, 8, i, nodes - 1);
+            call("define", i, spill);
+            made(call("node", 5, i, 1, 1));
+            made(call("node", 1, 2, nodes - 1, 0));
+            call("put", 0, 9, i, nodes - 1);
+        }
+        int held = nodes;
+        made(call("cell", 0, 7, 0, false));
+        made(call("node", 0, 0, held, 1));
+        call("put", 0, 7, 0, nodes - 1);
+        call("put", 0, 0, 0, held);
+        call("hold", 0, 7, 0, 0L);
+        call("setWay", 1);
+    }
+
+    /** Changes that leave most of a rich document as it is. */
+    private void stir() {
+        switch (random.nextInt(8)) {
+            case 0:
+                call("set", 0, 5 + upTo(1), upTo(4), small());
+                break;
+            case 1:
+                call("erase", 0, 5 + upTo(1), upTo(4));
+                break;
+            case 2:
+            case 3:
+                call("rounds", 1 + upTo(5));
+                break;
+            case 4:
+                call("tick", upTo(9), upTo(9));
+                break;
+            case 5:
+                call("undo");
+                break;
+            default:
+                look();
+        }
+        call("runs");
+    }
+
     private boolean run() {
+        boolean isRich = most == 512 && random.nextBoolean();
+        if (isRich) {
+            makeRich();
+        }
         int many = 1 + upTo(2);
         for (int i = 0; i < many; i++) {
             makeGrid();
@@ -332,7 +392,9 @@ public final class ModelTest {
         }
         while (isFine && calls < most) {
             int what = random.nextInt(10);
-            if (what == 0) {
+            if (isRich && random.nextInt(20) != 0) {
+                stir();
+            } else if (what == 0) {
                 makeNode();
             } else if (what < 6) {
                 change();
