@@ -168,6 +168,77 @@ public final class ModelTest {
         }
     }
 
+    /** A node such as people make them: lists, what is done with them, references, functions. */
+    private int makeUseful(int deep) {
+        int g = grid();
+        int kind = deep <= 0 ? random.nextInt(5) : random.nextInt(16);
+        Object made;
+        switch (kind) {
+            case 0:
+                made = call("number", (long) upTo(4));
+                break;
+            case 1:
+            case 2:
+                made = call("cell", g, row(g), column(g), random.nextInt(3) == 0);
+                break;
+            case 3:
+                int r = row(g);
+                int c = column(g);
+                made = call("range", g, Math.min(r, row(g)), Math.min(c, column(g)), r, c);
+                break;
+            case 4:
+                int leaf = random.nextInt(7);
+                int[] most = {0, 2, 1, notes - 1, 0, 0, 2};
+                made = call("leaf", leaf, leaf == 0 ? 10 * g + column(g) : upTo(Math.max(0, most[leaf])));
+                break;
+            case 5:
+            case 6:
+                made = call("node", 0, upTo(9), makeUseful(deep - 1), makeUseful(deep - 1));
+                break;
+            case 7:
+                made = call("node", 1, upTo(3), makeUseful(deep - 1), 0);
+                break;
+            case 8:
+            case 9:
+                made = call("node", 2, random.nextBoolean() ? 0 : upTo(3), makeUseful(deep - 1), 0);
+                break;
+            case 10:
+                made = call("node", 3, 0, makeUseful(deep - 1), makeUseful(0));
+                break;
+            case 11:
+                made = call("node", 4, g, makeUseful(deep - 1), makeUseful(0));
+                break;
+            case 12:
+                made = call("node", 5 + upTo(1), upTo(1), makeUseful(deep - 1), makeUseful(0));
+                break;
+            case 13:
+            case 14:
+                made = call("node", 7, 0, makeUseful(deep - 1), makeUseful(deep - 1));
+                break;
+            default:
+                made = call("when", makeUseful(deep - 1), makeUseful(deep - 1), makeUseful(0));
+        }
+        made(made);
+        return made instanceof Integer ? (Integer) made : node();
+    }
+
+    /** Many cells with contents, by which spills, errors and circles come about. */
+    private void makeDense() {
+        for (int g = 0; g < grids.size(); g++) {
+            for (int i = ours.rows(g) * grids.get(g)[1] / 2; i >= 0; i--) {
+                if (random.nextInt(4) == 0) {
+                    call("set", g, row(g), column(g), small());
+                } else {
+                    call("put", g, row(g), column(g), random.nextInt(4) == 0 ? node() : makeUseful(3));
+                }
+            }
+        }
+        for (int i = 0; i < 2; i++) {
+            call("define", i, makeUseful(2));
+            call("name", i, makeUseful(2));
+        }
+    }
+
     private void change() {
         int g = grid();
         int r = row(g);
@@ -185,8 +256,10 @@ public final class ModelTest {
             case 7:
             case 8:
             case 9:
-            case 10:
                 call("put", g, r, c, node());
+                break;
+            case 10:
+                call("put", g, r, c, makeUseful(2));
                 break;
             case 11:
                 call("erase", g, r, c);
@@ -242,7 +315,6 @@ public final class ModelTest {
                 break;
             case 7:
             case 8:
-            case 9:
                 call("undo");
                 break;
             case 10:
@@ -253,6 +325,18 @@ public final class ModelTest {
                     notes++;
                     call("note");
                 }
+        }
+    }
+
+    private void lookAtAll() {
+        String[] names = {"value", "spills", "through", "cause", "valueFromNothing"};
+        String name = names[random.nextInt(names.length)];
+        for (int g = 0; g < grids.size(); g++) {
+            for (int r = 0; r < ours.rows(g); r++) {
+                for (int c = 0; c < grids.get(g)[1]; c++) {
+                    call(name, g, r, c);
+                }
+            }
         }
     }
 
@@ -386,9 +470,13 @@ public final class ModelTest {
             notes++;
             call("note");
         }
-        int first = 5 + upTo(30);
+        int first = 5 + upTo(10);
         for (int i = 0; i < first; i++) {
             makeNode();
+        }
+        boolean isDense = random.nextInt(3) > 0;
+        if (isDense) {
+            makeDense();
         }
         while (isFine && calls < most) {
             int what = random.nextInt(10);
@@ -403,6 +491,9 @@ public final class ModelTest {
             }
             if (random.nextInt(200) == 0) {
                 makeGrid();
+            }
+            if (random.nextInt(40) == 0) {
+                lookAtAll();
             }
             if (isWild && random.nextInt(5) == 0) {
                 reckless();
