@@ -380,8 +380,12 @@ public final class NoteDocument {
 
     public int letter(int note, int place) throws IndexOutOfBoundsException {
         checkNote(note);
+        // Tidied ahead, for what is remembered points into the heap.
+        tidy();
+        finder.remember();
         long text = readNote(note);
         if (place < 0 || place >= heap.lengthOf(text)) {
+            finder.takeBack();
             throw new IndexOutOfBoundsException("no such character");
         }
         return (int) heap.itemOf(text, place);
@@ -1323,10 +1327,22 @@ public final class NoteDocument {
         private final int[] readTurn = new int[THINGS];
         private int readCount;
         private int turn;
+        private final int[] recordAhead = new int[ENTRIES];
+        private final int[] checkedAhead = new int[ENTRIES];
 
         Desk(State state, Heap heap) {
             this.state = state;
             this.heap = heap;
+        }
+
+        void remember() {
+            System.arraycopy(state.record, 0, recordAhead, 0, ENTRIES);
+            System.arraycopy(checked, 0, checkedAhead, 0, ENTRIES);
+        }
+
+        void takeBack() {
+            System.arraycopy(recordAhead, 0, state.record, 0, ENTRIES);
+            System.arraycopy(checkedAhead, 0, checked, 0, ENTRIES);
         }
 
         void beginFresh(int how) {
@@ -1859,11 +1875,10 @@ public final class NoteDocument {
             return Words.ROW | row;
         }
 
+        /** A row that is too long for its grid reads the cells below, too, as far as they are there. */
         private boolean hasRoom(int cell, int count) {
-            if (rowOf(cell) + count > state.rows[gridOf(cell)]) {
-                return false;
-            }
-            for (int i = 1; i < count; i++) {
+            int room = state.rows[gridOf(cell)] - rowOf(cell);
+            for (int i = 1; i < Math.min(count, room); i++) {
                 int below = cell + i * MOST_COLUMNS;
                 long content = desk.contentOf(below);
                 desk.add(CONTENT + below, content);
@@ -1871,7 +1886,7 @@ public final class NoteDocument {
                     return false;
                 }
             }
-            return true;
+            return count <= room;
         }
 
         /** The characters of a note, as a row of their codes. */
@@ -1977,12 +1992,28 @@ public final class NoteDocument {
         private int opened;
         int runCount;
         int callCount;
+        private int runCountAhead;
+        private int callCountAhead;
 
         Finder(Desk desk, Runner runner) {
             this.desk = desk;
             this.heap = desk.heap;
             this.state = desk.state;
             this.runner = runner;
+        }
+
+        /** Remembers what is found, for a call that may throw only when it has asked. */
+        void remember() {
+            desk.remember();
+            runCountAhead = runCount;
+            callCountAhead = callCount;
+        }
+
+        /** Takes back what was found since remember(): a call that throws changes nothing. */
+        void takeBack() {
+            desk.takeBack();
+            runCount = runCountAhead;
+            callCount = callCountAhead;
         }
 
         void find(int entry) {

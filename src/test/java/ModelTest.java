@@ -350,7 +350,9 @@ public final class ModelTest {
                 call("calculate");
                 break;
             case 1:
-                call("length", upTo(2));
+                if (random.nextBoolean()) {
+                    call("length", upTo(2));
+                }
                 call("letter", upTo(2), upTo(20));
                 break;
             case 2:

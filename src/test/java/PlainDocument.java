@@ -288,13 +288,14 @@ final class PlainDocument {
             return through(cell, list.get(0));
         }
         int[] at = at(cell);
-        if (at[1] + list.size() > now.rows.get(at[0])) {
-            return through(cell, error(5));
-        }
-        for (int i = 1; i < list.size(); i++) {
+        int rows = now.rows.get(at[0]);
+        for (int i = 1; i < list.size() && at[1] + i < rows; i++) {
             if (!read("content:" + place(at[0], at[1] + i, at[2])).equals("none")) {
                 return through(cell, error(5));
             }
+        }
+        if (at[1] + list.size() > rows) {
+            return through(cell, error(5));
         }
         List<Single> to = new ArrayList<>();
         for (Single s : list) {
@@ -1046,8 +1047,16 @@ final class PlainDocument {
 
     public int letter(int note, int place) {
         checkNote(note);
+        Map<String, Found> foundAhead = new HashMap<>(now.found);
+        Set<String> checkedAhead = new HashSet<>(checked);
+        int runsAhead = runs;
+        int callsAhead = calls;
         String text = text(note);
         if (place < 0 || place >= text.length()) {
+            now.found = foundAhead;
+            checked = checkedAhead;
+            runs = runsAhead;
+            calls = callsAhead;
             throw new IndexOutOfBoundsException();
         }
         return text.charAt(place);

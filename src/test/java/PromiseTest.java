@@ -996,6 +996,42 @@ public final class PromiseTest {
         thrown("no such character", INDEX, () -> x.letter(0, 8));
         thrown("no such character", INDEX, () -> x.letter(0, -1));
         thrown("no such note", INDEX, () -> x.letter(1, 0));
+        lettersNotThere();
+    }
+
+    /** A call that throws has changed nothing, though it has to ask ahead of that. */
+    private static void lettersNotThere() {
+        NoteDocument x = document(2, 2);
+        int two = x.number(2);
+        x.define(0, x.cell(0, 0, 1, false));
+        x.put(0, 0, 0, x.node(CALL, 0, two, two));
+        x.note();
+        x.show(0, 0, 0, 0, 0);
+        x.say(0, 2);
+        thrown("no such character", INDEX, () -> x.letter(0, 2));
+        thrown("no such character", INDEX, () -> x.letter(0, -1));
+        due("runs", x.runs(), 0);
+        due("calls", x.calls(), 0);
+        x.setWay(2);
+        due("nothing was found for the note", x.length(0), 0);
+        due("nothing was found for the cell", x.kind(0, 0, 0), 0);
+        x.setWay(0);
+        due("a character that is there", x.letter(0, 1), 'a');
+        due("runs", x.runs(), 1);
+        due("calls", x.calls(), 1);
+        x.set(0, 0, 1, 12);
+        thrown("no such character", INDEX, () -> x.letter(0, 4));
+        due("runs", x.runs(), 1);
+        x.setWay(2);
+        due("what was found before", x.length(0), 2);
+        thrown("no such character by hand", INDEX, () -> x.letter(0, 2));
+        x.setWay(0);
+        due("found anew", x.length(0), 4);
+        due("runs", x.runs(), 2);
+        due("calls", x.calls(), 2);
+        thrown("no such character of what is found", INDEX, () -> x.letter(0, 4));
+        x.setWay(2);
+        due("it stays found", x.length(0), 4);
     }
 
     private static void counts() {
@@ -1084,6 +1120,30 @@ public final class PromiseTest {
         x.set(0, 0, 1, 8);
         x.value(0, 4, 0);
         due("a content further above", x.runs(), runs + 1);
+        longRows();
+    }
+
+    /** A row that is too long for its grid has read what is there below, too. */
+    private static void longRows() {
+        NoteDocument x = document(4, 1);
+        x.put(0, 1, 0, x.node(LIST, 0, x.number(5), 0));
+        due("too long", x.value(0, 1, 0), 5);
+        due("run", x.runs(), 1);
+        x.set(0, 0, 0, 1);
+        x.value(0, 1, 0);
+        due("what is above counts for nothing", x.runs(), 1);
+        x.set(0, 3, 0, 1);
+        due("still too long", x.value(0, 1, 0), 5);
+        due("the last one below", x.runs(), 2);
+        x.set(0, 2, 0, 1);
+        x.value(0, 1, 0);
+        due("the first one below", x.runs(), 3);
+        x.erase(0, 3, 0);
+        x.value(0, 1, 0);
+        due("up to the first one that has a content", x.runs(), 3);
+        x.put(0, 3, 0, x.node(LIST, 0, x.number(2), 0));
+        due("nothing is below", x.value(0, 3, 0), 5);
+        due("run", x.runs(), 4);
     }
 
     private static void inserts() {
