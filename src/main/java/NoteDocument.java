@@ -375,12 +375,12 @@ public final class NoteDocument {
 
     public int length(int note) throws IndexOutOfBoundsException {
         checkNote(note);
+        tidy();
         return heap.lengthOf(readNote(note));
     }
 
     public int letter(int note, int place) throws IndexOutOfBoundsException {
         checkNote(note);
-        // Tidied ahead, for what is remembered points into the heap.
         tidy();
         finder.remember();
         long text = readNote(note);
@@ -643,15 +643,19 @@ public final class NoteDocument {
 
     /** Throws away what nobody refers to any more; only between runs, for runs point into the heap. */
     private void tidy() {
-        if (!heap.isHalfFull()) {
+        if (!heap.isRatherFull()) {
             return;
         }
-        heap.beginMoving();
-        heap.moveRecords(state.record);
+        heap.markRecords(state.record);
         for (int i = 0; i < keptCount; i++) {
-            heap.moveRecords(kept[(firstKept + i) % KEPT].record);
+            heap.markRecords(kept[(firstKept + i) % KEPT].record);
         }
-        heap.endMoving();
+        heap.tellGoals();
+        heap.leadRecords(state.record);
+        for (int i = 0; i < keptCount; i++) {
+            heap.leadRecords(kept[(firstKept + i) % KEPT].record);
+        }
+        heap.slide();
     }
 
     /** Asks for all cells with formulas and all notes, if this is always so or the way is by push. */
@@ -723,7 +727,6 @@ public final class NoteDocument {
     }
 
     private long readNote(int note) {
-        tidy();
         if (way != BY_HAND) {
             finder.find(NOTE_ENTRY + note);
         }
@@ -1170,20 +1173,23 @@ public final class NoteDocument {
 
     /**
      * Where rows and what was found stand, never changed once written, so that keeping for undo()
-     * is keeping pointers. A row is its length and its values; a record is twice the count of what
-     * was read (and 1 more in a circle), the value, and what was read with what it was then.
+     * is keeping pointers. They stand one behind another, each behind a head: of a row how many
+     * values it has; of a record what was found, RECORD with twice the count of what was read (and
+     * 1 more in a circle), then the value, and what was read with what it was then.
      */
     private static final class Heap {
         private static final int FIRST_SIZE = 1 << 13;
+        private static final long RECORD = 1L << 20;
+        // Where a block goes stands in its head, above what else a head tells.
+        private static final int GOAL = 21;
+        private static final long TOLD = (1L << GOAL) - 1;
 
         long[] words = new long[FIRST_SIZE];
-        private long[] moved = new long[1];
-        private int movedTop = 1;
         // 0 is no place, so that a pointer of 0 is none.
         int top = 1;
 
-        boolean isHalfFull() {
-            return top > words.length / 2;
+        boolean isRatherFull() {
+            return top > words.length / 4 * 3;
         }
 
         void ensure(int room) {
@@ -1199,6 +1205,26 @@ public final class NoteDocument {
             words[at] = count;
             top += count + 1;
             return at;
+        }
+
+        /** Makes a record of a value and as many things that were read, to be filled. */
+        int openRecord(long value, int reads) {
+            int at = open(1 + reads);
+            words[at] = RECORD | 2L * reads;
+            words[at + 1] = value;
+            return at;
+        }
+
+        void setCircle(int record) {
+            words[record] |= 1;
+        }
+
+        boolean isCircle(int record) {
+            return (words[record] & 1) == 1;
+        }
+
+        int readsOf(int record) {
+            return (int) (words[record] & RECORD - 1) >> 1;
         }
 
         int countOf(long word) {
@@ -1248,59 +1274,85 @@ public final class NoteDocument {
             return Words.ROW | mark;
         }
 
-        void beginMoving() {
-            if (moved.length < words.length) {
-                moved = new long[words.length];
-            }
-            movedTop = 1;
-        }
-
-        void moveRecords(int[] record) {
+        /** Marks what stays: records that are referred to, and the rows that they refer to. */
+        void markRecords(int[] record) {
             for (int i = 0; i < record.length; i++) {
-                if (record[i] > 0) {
-                    record[i] = moveRecord(record[i]);
+                int at = record[i];
+                if (at > 0 && goalOf(at) == 0) {
+                    mark(at);
+                    int last = at + 1 + readsOf(at);
+                    for (int j = at + 1; j <= last; j++) {
+                        long word = Words.unkeyed(words[j]);
+                        if (Words.isRow(word)) {
+                            mark(Words.pointerOf(word));
+                        }
+                    }
                 }
             }
         }
 
-        /** A place that was moved holds, below 0, where it is now. */
-        private int moveRecord(int from) {
-            if (words[from] < 0) {
-                return (int) -words[from];
-            }
-            int reads = (int) (words[from] >> 1);
-            int to = movedTop;
-            System.arraycopy(words, from, moved, to, 2 + reads);
-            movedTop += 2 + reads;
-            words[from] = -to;
-            moved[to + 1] = moveRow(moved[to + 1]);
-            for (int i = to + 2; i < to + 2 + reads; i++) {
-                moved[i] = Words.rekeyed(moved[i], moveRow(Words.unkeyed(moved[i])));
-            }
-            return to;
+        private void mark(int block) {
+            words[block] |= 1L << GOAL;
         }
 
-        private long moveRow(long word) {
-            if (!Words.isRow(word)) {
-                return word;
-            }
-            int from = Words.pointerOf(word);
-            if (words[from] >= 0) {
-                int size = (int) words[from] + 1;
-                System.arraycopy(words, from, moved, movedTop, size);
-                words[from] = -movedTop;
-                movedTop += size;
-            }
-            return Words.ROW | -words[from];
+        private int goalOf(int block) {
+            return (int) (words[block] >> GOAL);
         }
 
-        void endMoving() {
-            long[] empty = words;
-            words = moved;
-            top = movedTop;
-            moved = empty;
-            if (isHalfFull()) {
-                ensure(words.length);
+        private int sizeOf(int block) {
+            long told = words[block] & TOLD;
+            return told >= RECORD ? 2 + readsOf(block) : 1 + (int) told;
+        }
+
+        /** Tells each block that stays where it goes, and the records among them where their rows go. */
+        void tellGoals() {
+            int goal = 1;
+            for (int at = 1; at < top; at += sizeOf(at)) {
+                if (goalOf(at) > 0) {
+                    words[at] = words[at] & TOLD | (long) goal << GOAL;
+                    goal += sizeOf(at);
+                }
+            }
+            for (int at = 1; at < top; at += sizeOf(at)) {
+                if (goalOf(at) > 0 && (words[at] & RECORD) != 0) {
+                    leadRows(at);
+                }
+            }
+        }
+
+        private void leadRows(int record) {
+            int last = record + 1 + readsOf(record);
+            for (int i = record + 1; i <= last; i++) {
+                long word = Words.unkeyed(words[i]);
+                if (Words.isRow(word)) {
+                    words[i] = Words.rekeyed(words[i], Words.ROW | goalOf(Words.pointerOf(word)));
+                }
+            }
+        }
+
+        void leadRecords(int[] record) {
+            for (int i = 0; i < record.length; i++) {
+                if (record[i] > 0) {
+                    record[i] = goalOf(record[i]);
+                }
+            }
+        }
+
+        /** Lets the blocks that stay go where they were told, down to one another. */
+        void slide() {
+            int end = 1;
+            int size;
+            for (int at = 1; at < top; at += size) {
+                size = sizeOf(at);
+                if (goalOf(at) > 0) {
+                    words[at] &= TOLD;
+                    System.arraycopy(words, at, words, end, size);
+                    end += size;
+                }
+            }
+            top = end;
+            if (isRatherFull()) {
+                words = Arrays.copyOf(words, words.length * 2);
             }
         }
     }
@@ -1414,7 +1466,7 @@ public final class NoteDocument {
         /** Whether what was found can be gone through; a circle can not, it is asked for anew. */
         boolean isGoable(int entry) {
             int record = recordOf(entry);
-            return record > 0 && (heap.words[record] & 1) == 0;
+            return record > 0 && !heap.isCircle(record);
         }
 
         void open(int entry, int place) {
@@ -1490,9 +1542,7 @@ public final class NoteDocument {
         }
 
         int writeRecord(long value) {
-            int at = heap.open(1 + readCount);
-            heap.words[at] = 2L * readCount;
-            heap.words[at + 1] = value;
+            int at = heap.openRecord(value, readCount);
             System.arraycopy(reads, 0, heap.words, at + 2, readCount);
             return at;
         }
@@ -1505,9 +1555,8 @@ public final class NoteDocument {
                 heap.words[text + 2] = '0' + Words.CIRCLE;
                 value = Words.ROW | text;
             }
-            int at = heap.open(1);
-            heap.words[at] = 1;
-            heap.words[at + 1] = value;
+            int at = heap.openRecord(value, 0);
+            heap.setCircle(at);
             return at;
         }
     }
@@ -2054,7 +2103,7 @@ public final class NoteDocument {
         /** Goes through what was read, from where it stopped, up to the first thing that has changed. */
         private void goThrough(int entry) {
             int record = desk.recordOf(entry);
-            int count = (int) (heap.words[record] >> 1);
+            int count = heap.readsOf(record);
             for (int i = at[depth - 1]; i < count; i++) {
                 long read = heap.words[record + 2 + i];
                 long word = desk.thingOf(Words.keyOf(read), entry);
