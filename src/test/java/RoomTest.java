@@ -121,11 +121,43 @@ public final class RoomTest {
         due("tried last", x.valueFromNothing(3, 0, 0), 51L * 51L * (249 + 49));
     }
 
+    /** All functions for nearly all that they can be given, each reading 150 formulas, found anew by each call. */
+    private static void full(NoteDocument x) {
+        fourGrids(x);
+        int[] sum = new int[3];
+        for (int g = 0; g < 3; g++) {
+            sum[g] = x.node(1, 0, x.range(g, 0, 0, 9, 4), 0);
+        }
+        int all = x.node(0, 0, sum[0], x.node(0, 0, sum[1], sum[2]));
+        int source = x.cell(0, 0, 0, false);
+        for (int i = 1; i < 150; i++) {
+            x.put(i / 50, i % 50 / 5, i % 5, source);
+        }
+        int body = x.node(0, 0, all, x.node(0, 0, x.leaf(2, 0), x.leaf(2, 1)));
+        for (int f = 0; f < 4; f++) {
+            x.define(f, body);
+        }
+        int row = x.node(0, 1, x.node(2, 0, x.number(13), 0), x.number(1));
+        int[] number = new int[13];
+        for (int i = 0; i < 13; i++) {
+            number[i] = x.number(i);
+        }
+        for (int i = 0; i < 50; i++) {
+            x.put(3, i / 5, i % 5, x.node(1, 0, x.node(6, i / 13, row, number[i % 13]), 0));
+        }
+        x.setWay(1);
+        for (int i = 0; i < 150; i++) {
+            x.set(0, 0, 0, i);
+        }
+        due("the functions", x.value(3, 9, 4), 13 * (150 * 149 + 10) + 78);
+    }
+
     public static void main(String[] args) throws InterruptedException {
         job("chain", RoomTest::chain);
         job("functions", RoomTest::functions);
         job("rounds", RoomTest::rounds);
         job("wide", RoomTest::wide);
+        job("full", RoomTest::full);
         System.out.println(passed + " passed, " + failed + " failed");
         System.exit(failed == 0 ? 0 : 1);
     }
