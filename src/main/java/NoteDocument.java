@@ -949,8 +949,10 @@ public final class NoteDocument {
             System.arraycopy(from.refRow, 0, refRow, 0, from.nodes);
             System.arraycopy(from.refColumn, 0, refColumn, 0, from.nodes);
             System.arraycopy(from.refToRow, 0, refToRow, 0, from.nodes);
-            System.arraycopy(from.torn, 0, torn, 0, from.nodes);
             System.arraycopy(from.record, 0, record, 0, ENTRIES);
+            for (int i = 0; i < from.nodes; i++) {
+                torn[i] = from.torn[i];
+            }
             time = from.time;
             seed = from.seed;
             ticks = from.ticks;
@@ -1299,6 +1301,7 @@ public final class NoteDocument {
             return (int) (words[block] >> GOAL);
         }
 
+        /** How many words a block has, its head counted. */
         private int sizeOf(int block) {
             long told = words[block] & TOLD;
             return told >= RECORD ? 2 + readsOf(block) : 1 + (int) told;
@@ -1307,13 +1310,13 @@ public final class NoteDocument {
         /** Tells each block that stays where it goes, and the records among them where their rows go. */
         void tellGoals() {
             int goal = 1;
-            for (int at = 1; at < top; at += sizeOf(at)) {
+            for (int at = 1; at < top; at += Math.max(1, sizeOf(at))) {
                 if (goalOf(at) > 0) {
                     words[at] = words[at] & TOLD | (long) goal << GOAL;
                     goal += sizeOf(at);
                 }
             }
-            for (int at = 1; at < top; at += sizeOf(at)) {
+            for (int at = 1; at < top; at += Math.max(1, sizeOf(at))) {
                 if (goalOf(at) > 0 && (words[at] & RECORD) != 0) {
                     leadRows(at);
                 }
@@ -1341,8 +1344,8 @@ public final class NoteDocument {
         /** Lets the blocks that stay go where they were told, down to one another. */
         void slide() {
             int end = 1;
-            int size;
-            for (int at = 1; at < top; at += size) {
+            int size = 1;
+            for (int at = 1; at < top; at += Math.max(1, size)) {
                 size = sizeOf(at);
                 if (goalOf(at) > 0) {
                     words[at] &= TOLD;
@@ -1911,15 +1914,16 @@ public final class NoteDocument {
                 return Words.EMPTY;
             }
             int count = heap.countOf(word);
-            if (count == 1) {
-                return chains.pass(cell, heap.itemOf(word, 0));
-            }
-            if (!hasRoom(cell, count)) {
-                return chains.pass(cell, Words.BLOCKED);
+            // Of what is found from nothing nobody asks through which cells it came.
+            boolean isPassed = desk.isKept();
+            if (count == 1 || !hasRoom(cell, count)) {
+                long one = count == 1 ? heap.itemOf(word, 0) : Words.BLOCKED;
+                return isPassed ? chains.pass(cell, one) : one;
             }
             int row = heap.open(count);
             for (int i = 0; i < count; i++) {
-                heap.words[row + 1 + i] = chains.pass(cell, heap.itemOf(word, i));
+                long item = heap.itemOf(word, i);
+                heap.words[row + 1 + i] = isPassed ? chains.pass(cell, item) : item;
             }
             return Words.ROW | row;
         }
