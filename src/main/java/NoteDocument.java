@@ -928,7 +928,6 @@ public final class NoteDocument {
         void keep(State from) {
             copy(from);
             grids = from.grids;
-            notes = from.notes;
             nodes = from.nodes;
         }
 
@@ -1077,8 +1076,7 @@ public final class NoteDocument {
 
         /** Whether a reference leads somewhere: undo() can leave nodes without their cells. */
         boolean isThere(int node) {
-            return !state.torn[node] && state.refToRow[node] < state.rows[of[node]]
-                    && state.refRow[node] < state.rows[of[node]];
+            return !state.torn[node] && state.refToRow[node] < state.rows[of[node]];
         }
     }
 

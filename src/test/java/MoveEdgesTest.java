@@ -77,6 +77,11 @@ public final class MoveEdgesTest {
         NoteDocument x = numbered();
         x.note();
         x.show(0, 0, 3, 0, 2);
+        NoteDocument y = numbered();
+        y.note();
+        y.show(0, 0, 0, 0, 0);
+        y.insert(0, 0);
+        CHECKS.due("the first cell in a note", Make.text(y, 0), "1");
         x.overlay(1, 0, 3, 0, 80);
         x.put(0, 3, 1, x.cell(0, 3, 0, false));
         x.put(0, 3, 2, x.cell(0, 3, 1, false));
@@ -258,6 +263,8 @@ public final class MoveEdgesTest {
         CHECKS.due("none is torn", x.torn(), 0);
         CHECKS.due("a reference", value(x, ref), "71");
         CHECKS.due("a SPILL", value(x, spill), "8");
+        CHECKS.due("torn where it went", x.remove(0, 2), 1);
+        x.undo();
         CHECKS.due("ranges stay", value(x, range), "2");
         CHECKS.due("another grid", value(x, outside), "33");
         CHECKS.due("a scenario", x.valueIn(1, 0, 3, 0), 90);
@@ -417,7 +424,7 @@ public final class MoveEdgesTest {
 
     /** Each call that is undoable is undone by itself. */
     private static void eachCall() {
-        for (int i = 0; i < 17; i++) {
+        for (int i = 0; i < 22; i++) {
             NoteDocument x = ready();
             String before = state(x);
             undoable(x, i);
@@ -438,13 +445,17 @@ public final class MoveEdgesTest {
         }
         int first = x.cell(0, 0, 0, false);
         x.name(0, first);
-        x.define(0, first);
+        x.define(0, x.leaf(2, 0));
         x.put(0, 0, 1, x.leaf(1, 0));
         x.put(0, 1, 1, Make.call(x, 0, five, five));
-        x.put(0, 2, 1, x.node(0, 0, x.leaf(4, 0), x.leaf(5, 0)));
+        int sum = Make.fold(x, 0, x.range(0, 0, 0, 1, 0));
+        x.put(0, 2, 1, Make.two(x, Make.ADD, Make.two(x, Make.ADD, x.leaf(4, 0), x.leaf(5, 0)),
+            Make.two(x, Make.ADD, x.leaf(6, 2), sum)));
         x.put(0, 3, 1, first);
         x.hold(0, 3, 1, 7);
+        x.put(0, 0, 2, x.cell(0, 1, 0, true));
         x.show(0, 0, 1, 0, 0);
+        x.show(0, 0, 2, 1, 0);
         x.overlay(0, 0, 0, 0, 9);
         return x;
     }
@@ -458,17 +469,22 @@ public final class MoveEdgesTest {
             case 3: x.hold(0, 3, 1, 0); break;
             case 4: x.rounds(3); break;
             case 5: x.name(0, five); break;
-            case 6: x.define(0, five); break;
+            case 6: x.define(0, 1); break;
             case 7: x.say(0, 2); break;
             case 8: x.show(0, 0, 0, 0, 0); break;
             case 9: x.tick(100, 1); break;
             case 10: x.insert(0, 0); break;
             case 11: x.remove(0, 0); break;
-            case 12: x.move(0, 0, 0, 1, 0); break;
+            case 12: x.move(0, 0, 0, 3, 2); break;
             case 13: x.sort(0, 0, 2, 0); break;
             case 14: x.overlay(0, 0, 1, 0, 4); break;
             case 15: x.drop(0); break;
-            default: x.hold(0, 0, 1, 4);
+            case 16: x.hold(0, 0, 1, 4); break;
+            case 17: x.insert(0, 1); break;
+            case 18: x.remove(0, 1); break;
+            case 19: x.move(0, 1, 0, 1, 2); break;
+            case 20: x.move(0, 1, 0, 0, 0); break;
+            default: x.tick(0, 2);
         }
         return x;
     }
@@ -536,6 +552,13 @@ public final class MoveEdgesTest {
         x.undo();
         CHECKS.due("what was found ahead of both", x.calculate(), 0);
         x.undo();
+        NoteDocument z = Make.document(2, 2);
+        z.put(0, 0, 0, z.number(3));
+        z.set(0, 1, 1, 1);
+        CHECKS.due("found behind the call", z.value(0, 0, 0), 3);
+        z.undo();
+        CHECKS.due("asked for again at once", z.value(0, 0, 0), 3);
+        CHECKS.due("with a run, for it was not found ahead of the call", z.runs(), 2);
         NoteDocument y = Make.document(2, 1);
         y.put(0, 0, 0, y.number(3));
         y.put(0, 1, 0, Make.cell(y, 0, 0));
@@ -570,6 +593,7 @@ public final class MoveEdgesTest {
         x.set(0, 6, 0, 4);
         x.put(0, 1, 1, cell);
         CHECKS.due("moved by rows that go", Make.shown(x, 0, 1, 1), "!3");
+        farBehind();
         NoteDocument y = Make.document(4, 2);
         y.set(0, 2, 0, 6);
         y.set(0, 3, 0, 7);
@@ -592,6 +616,29 @@ public final class MoveEdgesTest {
         y.put(0, 0, 1, whole);
         y.put(0, 1, 1, far);
         CHECKS.due("there again by undo()", Make.all(y, 0, 2), "- 13 / - 7 / 6 - / 7 -");
+    }
+
+    /** A node that refers to the eleventh row, by undo() and an insert, in a grid of ten rows. */
+    private static void farBehind() {
+        NoteDocument x = Make.document(9, 2);
+        for (int i = 0; i < 9; i++) {
+            x.set(0, i, 0, 9 - i);
+        }
+        x.insert(0, 9);
+        int far = x.cell(0, 9, 0, false);
+        int wide = x.range(0, 9, 0, 9, 1);
+        x.undo();
+        x.insert(0, 0);
+        x.put(0, 0, 1, far);
+        x.put(0, 1, 1, wide);
+        CHECKS.due("the eleventh row is not there", Make.shown(x, 0, 0, 1), "!3");
+        CHECKS.due("sorted", x.sort(0, 0, 9, 0), 10);
+        CHECKS.due("the first row goes behind all", Make.all(x, 0, 2), "1 - / 2 - / 3 - / 4 - / 5 - / 6 - / 7 - / 8 - / "
+            + "9 !3 / - !3");
+        CHECKS.due("a row goes", x.remove(0, 0), 0);
+        CHECKS.due("the tenth row is not there", Make.shown(x, 0, 8, 1), "!3");
+        CHECKS.due("moved to the last row", x.move(0, 7, 0, 8, 0), 0);
+        CHECKS.due("none is torn", x.torn(), 0);
     }
 
     public static void main(String[] args) {

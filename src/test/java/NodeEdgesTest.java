@@ -62,6 +62,9 @@ public final class NodeEdgesTest {
         CHECKS.due("CELL of what it spills into", value(x, x.cell(0, 1, 0, false)), "2");
         CHECKS.due("SPILL of that is no row", value(x, Make.fold(x, Make.FOLD_SUM, x.cell(0, 1, 0, true))), "!6");
         CHECKS.due("of an empty cell", value(x, x.cell(0, 1, 2, true)), "-");
+        x.put(0, 0, 2, Make.upTo(x, 1));
+        CHECKS.due("SPILL of a row of one value, which is that value", value(x, Make.fold(x, 1, x.cell(0, 0, 2, true))),
+            "!6");
         x.set(0, 1, 2, 7);
         CHECKS.due("of the last cell", value(x, x.cell(0, 1, 2, false)), "7");
         CHECKS.due("SPILL of a number", value(x, x.cell(0, 1, 2, true)), "7");
@@ -121,6 +124,10 @@ public final class NodeEdgesTest {
         for (int i = 0; i < right.length; i++) {
             CHECKS.due("leaf " + right[i][0] + " of " + right[i][1], x.leaf(right[i][0], right[i][1]), i);
         }
+        for (int first = 1; first <= 5; first++) {
+            columns(new int[] {first, 5, 1, 3});
+            columns(new int[] {1, 2, first, 6 - first});
+        }
         due("COLUMN", y -> {
             Make.row(y, 4, 5);
             return Make.fold(y, Make.FOLD_SUM, y.leaf(0, 3));
@@ -147,6 +154,28 @@ public final class NodeEdgesTest {
             z.tick(3, 0);
             return z.leaf(6, 0);
         }, "" + 7919L * 31 % 1000);
+    }
+
+    /** COLUMN of each grid and column, and of none behind the last one. */
+    private static void columns(int[] many) {
+        NoteDocument x = new NoteDocument();
+        for (int grid = 0; grid < 4; grid++) {
+            x.grid(2, many[grid]);
+            for (int column = 0; column < many[grid]; column++) {
+                x.set(grid, 1, column, 10 * grid + column);
+            }
+        }
+        for (int grid = 0; grid < 4; grid++) {
+            for (int column = 0; column < 10; column++) {
+                int of = 10 * grid + column;
+                if (column >= many[grid]) {
+                    CHECKS.thrown("no such column: " + of, Checks.ARGUMENT, () -> x.leaf(0, of));
+                } else {
+                    x.put(0, 0, 0, Make.item(x, x.leaf(0, of), x.number(2)));
+                    CHECKS.due("COLUMN " + of, Make.shown(x, 0, 0, 0), of == 0 ? "!4" : "" + of);
+                }
+            }
+        }
     }
 
     private static void nodes() {

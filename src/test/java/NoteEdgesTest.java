@@ -294,6 +294,7 @@ public final class NoteEdgesTest {
         CHECKS.due("not kept", x.undo(), 0);
         CHECKS.due("the way stays", x.setWay(0), 0);
         byPush();
+        eachByPush();
         byHand();
         calculate();
     }
@@ -349,6 +350,50 @@ public final class NoteEdgesTest {
         CHECKS.due("nothing that is read has changed", x.runs(), 21);
         x.setWay(2);
         CHECKS.due("notes are asked for, too", Make.text(x, 0), "0");
+    }
+
+    /** By push each undoable call asks for all, also for what it has nothing to do with. */
+    private static void eachByPush() {
+        for (int call = 0; call < 17; call++) {
+            NoteDocument x = Make.document(4, 3);
+            int five = x.number(5);
+            x.note();
+            x.put(0, 3, 2, five);
+            x.put(0, 3, 0, x.number(4));
+            x.set(0, 0, 0, 1);
+            x.set(0, 0, 1, 2);
+            x.setWay(1);
+            CHECKS.due("asked for as it became by push", x.runs(), 2);
+            x.undo();
+            x.set(0, 0, 1, 2);
+            CHECKS.due("nothing had been found ahead of that call", x.runs(), 4);
+            x.undo();
+            CHECKS.due("undo() asks for nothing", x.runs(), 4);
+            pushed(x, call);
+            CHECKS.due("all was asked for, behind call " + call, x.runs() >= (call == 12 ? 6 : 5));
+        }
+    }
+
+    private static void pushed(NoteDocument x, int call) {
+        switch (call) {
+            case 0: x.set(0, 1, 1, 1); break;
+            case 1: x.put(0, 1, 1, 0); break;
+            case 2: x.erase(0, 1, 1); break;
+            case 3: x.hold(0, 3, 2, 1); break;
+            case 4: x.rounds(1); break;
+            case 5: x.name(0, -1); break;
+            case 6: x.define(0, -1); break;
+            case 7: x.say(0, 1); break;
+            case 8: x.show(0, 0, 1, 1, 0); break;
+            case 9: x.tick(0, 0); break;
+            case 10: x.insert(0, 0); break;
+            case 11: x.remove(0, 0); break;
+            case 12: x.move(0, 3, 2, 3, 1); break;
+            case 13: x.sort(0, 0, 0, 0); break;
+            case 14: x.overlay(0, 0, 0, 0, 1); break;
+            case 15: x.drop(0); break;
+            default: x.hold(0, 3, 0, 1);
+        }
     }
 
     private static void byHand() {
@@ -419,6 +464,16 @@ public final class NoteEdgesTest {
         CHECKS.due("who reads a circle", x.calculate(), 1);
         CHECKS.due("that has not changed", x.calculate(), 0);
         CHECKS.due("it is not kept", x.undo(), 4);
+        NoteDocument y = Make.document(1, 1);
+        y.setWay(2);
+        for (int i = 0; i < 3; i++) {
+            y.note();
+            y.say(i, i + 1);
+        }
+        y.calculate();
+        for (int i = 0; i < 3; i++) {
+            CHECKS.due("all notes are asked for", y.length(i), i + 1);
+        }
     }
 
     public static void main(String[] args) {

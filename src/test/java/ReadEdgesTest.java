@@ -439,6 +439,18 @@ public final class ReadEdgesTest {
         CHECKS.due("the name", Make.shown(x, 0, 1, 1), "0");
         CHECKS.due("found for both", Make.shown(x, 0, 3, 1), "0");
         CHECKS.due("found for both", x.calls(), 3);
+        NoteDocument y = Make.document(6, 1);
+        y.put(0, 0, 0, Make.error(y));
+        for (int i = 1; i < 4; i++) {
+            y.put(0, i, 0, Make.cell(y, i - 1, 0));
+        }
+        CHECKS.due("through four", y.through(0, 3, 0), 4);
+        for (int name = 0; name < 6; name++) {
+            y.name(name, y.leaf(1, name));
+            y.put(0, 4, 0, y.leaf(1, name));
+            CHECKS.due("a name's circle has come through the reader alone", y.through(0, 4, 0), 1);
+            CHECKS.due("a name's circle has come through the reader alone", y.cause(0, 4, 0), 40);
+        }
     }
 
     /** All that needs itself is in a circle, whichever is asked for first. */
