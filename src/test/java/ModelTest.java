@@ -1,3 +1,4 @@
+import java.lang.reflect.Field;
 import java.lang.reflect.InvocationTargetException;
 import java.lang.reflect.Method;
 import java.util.ArrayList;
@@ -33,12 +34,34 @@ public final class ModelTest {
     private int calls;
     private boolean isFine = true;
     private final boolean isWild;
+    private final boolean isFilled;
     private final int most;
 
     private ModelTest(long seed) {
         random = new Random(seed);
         isWild = random.nextInt(4) == 0;
+        isFilled = random.nextInt(3) == 0;
         most = random.nextInt(3) == 0 ? 512 : 60 + random.nextInt(200);
+    }
+
+    /** Fills the room where rows and what was found stand, so that the next call must tidy it. */
+    private void fillRoom() {
+        try {
+            Field field = NoteDocument.class.getDeclaredField("heap");
+            field.setAccessible(true);
+            Object heap = field.get(ours);
+            Field words = heap.getClass().getDeclaredField("words");
+            words.setAccessible(true);
+            Field top = heap.getClass().getDeclaredField("top");
+            top.setAccessible(true);
+            Method open = heap.getClass().getDeclaredMethod("open", int.class);
+            open.setAccessible(true);
+            int room = ((long[]) words.get(heap)).length;
+            int free = room - top.getInt(heap);
+            open.invoke(heap, Math.max(0, free - room / 5));
+        } catch (ReflectiveOperationException e) {
+            throw new AssertionError(e);
+        }
     }
 
     private static Object answer(Method method, Object on, Object... args) {
@@ -59,6 +82,9 @@ public final class ModelTest {
             return null;
         }
         calls++;
+        if (isFilled) {
+            fillRoom();
+        }
         Object one = answer(OURS.get(name), ours, args);
         Object other = answer(PLAIN.get(name), plain, args);
         log.add(name + Arrays.toString(args) + " = " + one);
@@ -459,10 +485,43 @@ public final class ModelTest {
         call("runs");
     }
 
+    /** Cells that each refer to the one ahead of it: an error in one comes through all behind it. */
+    private void makeChain() {
+        call("grid", 10, 5);
+        grids.add(new int[] {10, 5});
+        made(call("leaf", 2, 0));
+        for (int i = 0; i < 49; i++) {
+            made(call("cell", 0, i / 5, i % 5, false));
+            call("put", 0, (i + 1) / 5, (i + 1) % 5, i + 1);
+        }
+    }
+
+    /** Lets an error come about in a chain, looks at it from behind, and mends it. */
+    private void pull() {
+        int i = upTo(48);
+        call("put", 0, i / 5, i % 5, 0);
+        for (int looks = upTo(2); looks >= 0; looks--) {
+            int at = i + upTo(49 - i);
+            call(random.nextBoolean() ? "through" : "cause", 0, at / 5, at % 5);
+        }
+        call("runs");
+        if (random.nextInt(5) == 0) {
+            call("undo");
+        } else if (i == 0) {
+            call("set", 0, 0, 0, small());
+        } else if (random.nextInt(20) > 0) {
+            call("put", 0, i / 5, i % 5, random.nextInt(20) == 0 ? upTo(49) : i);
+        }
+    }
+
     private boolean run() {
         boolean isRich = most == 512 && random.nextBoolean();
+        boolean isChain = !isRich && most == 512 && random.nextInt(3) == 0;
         if (isRich) {
             makeRich();
+        }
+        if (isChain) {
+            makeChain();
         }
         int many = 1 + upTo(2);
         for (int i = 0; i < many; i++) {
@@ -484,6 +543,8 @@ public final class ModelTest {
             int what = random.nextInt(10);
             if (isRich && random.nextInt(20) != 0) {
                 stir();
+            } else if (isChain && random.nextInt(20) != 0) {
+                pull();
             } else if (what == 0) {
                 makeNode();
             } else if (what < 6) {

@@ -61,6 +61,24 @@ public final class RoomTest {
         }
     }
 
+    /** 149 cells, each the one before it; errors arise in one after the other, far more chains than at first. */
+    private static void errors(NoteDocument x) {
+        fourGrids(x);
+        int outside = x.leaf(2, 0);
+        int[] before = new int[150];
+        for (int i = 1; i < 150; i++) {
+            before[i] = x.cell((i - 1) / 50, (i - 1) % 50 / 5, (i - 1) % 5, false);
+            x.put(i / 50, i % 50 / 5, i % 5, before[i]);
+        }
+        for (int i = 1; i < 148; i += 3) {
+            x.put(i / 50, i % 50 / 5, i % 5, outside);
+            due("through", x.through(2, 9, 4), 150 - i);
+            due("cause", x.cause(2, 9, 4), 100 * (i / 50) + 10 * (i % 50 / 5) + i % 5);
+            x.put(i / 50, i % 50 / 5, i % 5, before[i]);
+        }
+        due("none", x.through(2, 9, 4), 0);
+    }
+
     /** A function that calls itself, and the next one, for all that it can be given. */
     private static void functions(NoteDocument x) {
         x.grid(10, 5);
@@ -154,6 +172,7 @@ public final class RoomTest {
 
     public static void main(String[] args) throws InterruptedException {
         job("chain", RoomTest::chain);
+        job("errors", RoomTest::errors);
         job("functions", RoomTest::functions);
         job("rounds", RoomTest::rounds);
         job("wide", RoomTest::wide);
