@@ -340,6 +340,11 @@ public final class ModelTest {
                 call("drop", upTo(2));
                 break;
             case 7:
+                for (int i = upTo(5); i >= 0; i--) {
+                    call("undo");
+                    call("calculate");
+                }
+                break;
             case 8:
                 call("undo");
                 break;
