@@ -631,7 +631,6 @@ public final class NoteDocument {
 
     /** Keeps what stands ahead of a call that is undoable; what was checked till now counts no more. */
     private void keep() {
-        tidy();
         if (keptCount == KEPT) {
             firstKept = (firstKept + 1) % KEPT;
             keptCount--;
@@ -643,9 +642,20 @@ public final class NoteDocument {
 
     /** Throws away what nobody refers to any more; only between runs, for runs point into the heap. */
     private void tidy() {
-        if (!heap.isRatherFull()) {
+        if (!heap.isRatherFull() && !chains.isRatherFull()) {
             return;
         }
+        tidyHeap();
+        if (chains.isRatherFull()) {
+            chains.unmark();
+            heap.markChains(chains);
+            chains.tellGoals();
+            heap.leadChains(chains);
+            chains.slide();
+        }
+    }
+
+    private void tidyHeap() {
         heap.markRecords(state.record);
         for (int i = 0; i < keptCount; i++) {
             heap.markRecords(kept[(firstKept + i) % KEPT].record);
@@ -814,6 +824,10 @@ public final class NoteDocument {
 
         static int chainOf(long word) {
             return (int) (word & LOW);
+        }
+
+        static long errorWith(int kind, int chain) {
+            return ERROR | (long) kind << KIND | chain;
         }
 
         static int pointerOf(long word) {
@@ -1082,14 +1096,18 @@ public final class NoteDocument {
 
     /**
      * The cells through which errors have come. Each chain is there once, so that the same chain has
-     * the same number; 0 is the chain of no cell, 1 and on are those of one cell.
+     * the same number; 0 is the chain of no cell, 1 and on are those of one cell, which stay. A chain
+     * is made behind the one that it goes on with.
      */
     private static final class Chains {
-        private int[] cell = new int[512];
-        private int[] behind = new int[512];
-        private int[] size = new int[512];
-        private int[] nextLikely = new int[512];
-        private int[] firstLikely = new int[512];
+        private static final int FIRST_SIZE = 512;
+
+        private int[] cell = new int[FIRST_SIZE];
+        private int[] behind = new int[FIRST_SIZE];
+        private int[] size = new int[FIRST_SIZE];
+        // While chains are thrown away: 0 of those that go, otherwise which number they get.
+        private int[] nextLikely = new int[FIRST_SIZE];
+        private int[] firstLikely = new int[FIRST_SIZE];
         private int count = 1;
 
         Chains() {
@@ -1129,10 +1147,10 @@ public final class NoteDocument {
                 at = nextLikely[at];
             }
             if (at <= 0) {
-                grow();
+                makeRoom();
                 at = add(first, chain);
             }
-            return Words.ERROR | (long) Words.errorOf(word) << Words.KIND | at;
+            return Words.errorWith(Words.errorOf(word), at);
         }
 
         private int add(int first, int chain) {
@@ -1153,21 +1171,81 @@ public final class NoteDocument {
         }
 
         /** Makes room for one more chain. */
-        private void grow() {
-            if (count < cell.length) {
-                return;
+        private void makeRoom() {
+            if (count >= cell.length) {
+                grow();
+                findAgain();
             }
+        }
+
+        private void grow() {
             int larger = cell.length * 2;
             cell = Arrays.copyOf(cell, larger);
             behind = Arrays.copyOf(behind, larger);
             size = Arrays.copyOf(size, larger);
             nextLikely = new int[larger];
             firstLikely = new int[larger];
+        }
+
+        /** Lets each chain be found by its first cell and what is behind it. */
+        private void findAgain() {
+            Arrays.fill(firstLikely, 0);
             for (int i = 1; i < count; i++) {
                 int slot = slot(cell[i], behind[i]);
                 nextLikely[i] = firstLikely[slot];
                 firstLikely[slot] = i;
             }
+        }
+
+        boolean isRatherFull() {
+            return count > cell.length / 4 * 3;
+        }
+
+        /** Begins to throw chains away: of none is it known that it stays, but of those of one cell. */
+        void unmark() {
+            Arrays.fill(nextLikely, 0);
+        }
+
+        /** A chain stays, and with it all those that it goes on with. */
+        void mark(int chain) {
+            int at = chain;
+            for (int i = 0; i < count && at > CELLS && at < count && nextLikely[at] == 0; i++) {
+                nextLikely[at] = at;
+                at = behind[at];
+            }
+        }
+
+        /** Tells each chain that stays which number it gets. */
+        void tellGoals() {
+            int goal = CELLS;
+            for (int i = CELLS + 1; i < count; i++) {
+                if (nextLikely[i] > 0) {
+                    goal++;
+                    nextLikely[i] = goal;
+                }
+            }
+        }
+
+        int goalOf(int chain) {
+            return chain > CELLS && chain < count ? nextLikely[chain] : chain;
+        }
+
+        /** Lets the chains that stay have the numbers that they were told. */
+        void slide() {
+            int end = CELLS + 1;
+            for (int i = CELLS + 1; i < count; i++) {
+                if (nextLikely[i] > 0) {
+                    cell[end] = cell[i];
+                    behind[end] = goalOf(behind[i]);
+                    size[end] = size[i];
+                    end++;
+                }
+            }
+            count = end;
+            if (count > cell.length / 2) {
+                grow();
+            }
+            findAgain();
         }
     }
 
@@ -1179,6 +1257,10 @@ public final class NoteDocument {
      */
     private static final class Heap {
         private static final int FIRST_SIZE = 1 << 13;
+        // From here on it grows by half, for all that ever was made counts.
+        private static final int LARGE = 1 << 21;
+        // What one call finds between two times of tidying is rarely more.
+        private static final int ENOUGH = 1 << 18;
         private static final long RECORD = 1L << 20;
         // Where a block goes stands in its head, above what else a head tells.
         private static final int GOAL = 21;
@@ -1189,13 +1271,19 @@ public final class NoteDocument {
         int top = 1;
 
         boolean isRatherFull() {
-            return top > words.length / 4 * 3;
+            return words.length - top < Math.min(words.length / 4, ENOUGH);
         }
 
         void ensure(int room) {
             if (words.length - top < room) {
-                words = Arrays.copyOf(words, Math.max(words.length * 2, top + room));
+                grow(top + room);
             }
+        }
+
+        private void grow(int least) {
+            int size = words.length;
+            int larger = size < LARGE ? Math.min(size * 4, LARGE) : size + size / 2;
+            words = Arrays.copyOf(words, Math.max(larger, least));
         }
 
         /** Makes a row of that many values, to be filled. */
@@ -1353,7 +1441,34 @@ public final class NoteDocument {
             }
             top = end;
             if (isRatherFull()) {
-                words = Arrays.copyOf(words, words.length * 2);
+                grow(top);
+            }
+        }
+
+        /** Marks the chains of all errors; only what stays is in the heap then. */
+        void markChains(Chains chains) {
+            for (int at = 1; at < top; at += Math.max(1, sizeOf(at))) {
+                int last = at + sizeOf(at) - 1;
+                for (int i = at + 1; i <= last; i++) {
+                    long word = Words.unkeyed(words[i]);
+                    if (Words.isError(word)) {
+                        chains.mark(Words.chainOf(word));
+                    }
+                }
+            }
+        }
+
+        /** Lets all errors have the chains that theirs are to become. */
+        void leadChains(Chains chains) {
+            for (int at = 1; at < top; at += Math.max(1, sizeOf(at))) {
+                int last = at + sizeOf(at) - 1;
+                for (int i = at + 1; i <= last; i++) {
+                    long word = Words.unkeyed(words[i]);
+                    if (Words.isError(word)) {
+                        int goal = chains.goalOf(Words.chainOf(word));
+                        words[i] = Words.rekeyed(words[i], Words.errorWith(Words.errorOf(word), goal));
+                    }
+                }
             }
         }
     }

@@ -35,6 +35,7 @@ public final class ModelTest {
     private boolean isFine = true;
     private final boolean isWild;
     private final boolean isFilled;
+    private final boolean isChained;
     private final int most;
 
     private ModelTest(long seed) {
@@ -42,6 +43,7 @@ public final class ModelTest {
         isWild = random.nextInt(4) == 0;
         isFilled = random.nextInt(3) == 0;
         most = random.nextInt(3) == 0 ? 512 : 60 + random.nextInt(200);
+        isChained = random.nextInt(3) == 0;
     }
 
     /** Fills the room where rows and what was found stand, so that the next call must tidy it. */
@@ -59,6 +61,29 @@ public final class ModelTest {
             int room = ((long[]) words.get(heap)).length;
             int free = room - top.getInt(heap);
             open.invoke(heap, Math.max(0, free - room / 5));
+        } catch (ReflectiveOperationException e) {
+            throw new AssertionError(e);
+        }
+    }
+
+    /** Makes chains of cells that no error has, until the next call must throw them away. */
+    private void fillChains() {
+        try {
+            Field field = NoteDocument.class.getDeclaredField("chains");
+            field.setAccessible(true);
+            Object chains = field.get(ours);
+            Method isRatherFull = chains.getClass().getDeclaredMethod("isRatherFull");
+            isRatherFull.setAccessible(true);
+            Method pass = chains.getClass().getDeclaredMethod("pass", int.class, long.class);
+            pass.setAccessible(true);
+            long error = 1L << 50 | 1L << 40;
+            for (int i = 0; i < 100000 && !(boolean) isRatherFull.invoke(chains); i++) {
+                int cell = random.nextInt(200);
+                error = (long) pass.invoke(chains, cell, error);
+                if (random.nextInt(20) == 0) {
+                    error = 1L << 50 | 1L << 40;
+                }
+            }
         } catch (ReflectiveOperationException e) {
             throw new AssertionError(e);
         }
@@ -84,6 +109,9 @@ public final class ModelTest {
         calls++;
         if (isFilled) {
             fillRoom();
+        }
+        if (isChained && calls % 3 == 0) {
+            fillChains();
         }
         Object one = answer(OURS.get(name), ours, args);
         Object other = answer(PLAIN.get(name), plain, args);

@@ -170,6 +170,91 @@ public final class RoomTest {
         due("the functions", x.value(3, 9, 4), 13 * (150 * 149 + 10) + 78);
     }
 
+    /**
+     * An error that comes to 150 cells by a way that each round makes another one of: the bits of a
+     * held number tell through which one of two cells it comes, fifteen times.
+     */
+    private static void paths(NoteDocument x) {
+        fourGrids(x);
+        int held = x.cell(0, 0, 0, false);
+        put(x, 0, x.node(0, 0, held, x.number(1)));
+        x.hold(0, 0, 0, 0);
+        int two = x.number(2);
+        put(x, 1, x.leaf(2, 0));
+        put(x, 2, x.leaf(2, 0));
+        int at = 3;
+        for (int i = 0; i < 15; i++) {
+            int bit = x.node(0, 4, x.node(0, 3, held, x.number(1L << i)), two);
+            int way = x.when(bit, cell(x, at - 2), cell(x, at - 1));
+            put(x, at, way);
+            put(x, at + 1, way);
+            at += 2;
+        }
+        for (int i = 0; i < 40; i++) {
+            put(x, at, cell(x, at - 1));
+            at++;
+        }
+        int last = cell(x, at - 1);
+        for (int i = at; i < 200; i++) {
+            put(x, i, last);
+            x.hold(i / 50, i % 50 / 5, i % 5, 0);
+        }
+        for (int i = 0; i < 100; i++) {
+            x.rounds(50);
+        }
+        due("the rounds", x.value(0, 0, 0), 5000);
+        x.hold(3, 9, 4, 0);
+        due("the last cell", x.through(3, 9, 4), 57);
+        due("the first one", x.cause(3, 9, 4), 2);
+    }
+
+    private static void put(NoteDocument x, int at, int node) {
+        x.put(at / 50, at % 50 / 5, at % 5, node);
+    }
+
+    private static int cell(NoteDocument x, int at) {
+        return x.cell(at / 50, at % 50 / 5, at % 5, false);
+    }
+
+    /** All functions for all that they can be given, each reading 189 formulas that all change by each call. */
+    private static void fullest(NoteDocument x) {
+        fourGrids(x);
+        int one = x.number(1);
+        int twelve = x.number(12);
+        int ahead = x.cell(0, 0, 0, false);
+        for (int g = 0; g < 4; g++) {
+            int columns = g == 3 ? 4 : 5;
+            for (int i = 0; i < 50; i++) {
+                if (g + i > 0 && i % 5 < columns) {
+                    x.put(g, i / 5, i % 5, ahead);
+                }
+            }
+            ahead = x.node(0, 0, ahead, x.node(1, 1, x.range(g, 0, 0, 9, columns - 1), 0));
+        }
+        int first = x.leaf(2, 0);
+        int second = x.leaf(2, 1);
+        for (int f = 0; f < 4; f++) {
+            int less = x.node(7, 0, x.node(5, f, x.node(0, 1, first, one), second), one);
+            int lessToo = x.node(7, 0, x.node(5, f, first, x.node(0, 1, second, one)), one);
+            int body = x.node(0, 6, ahead, x.node(0, 6, less, lessToo));
+            x.define(f, f == 3 ? body : x.node(0, 6, body, x.node(5, f + 1, twelve, twelve)));
+        }
+        x.put(3, 0, 4, x.node(5, 0, twelve, twelve));
+        x.setWay(1);
+        for (int i = 0; i < 100; i++) {
+            x.set(0, 0, 0, i);
+        }
+        due("the functions", x.value(3, 0, 4), 99 + 190);
+        due("calls", x.calls(), 101 * 676);
+        x.setWay(0);
+        x.put(0, 0, 0, x.node(0, 0, x.cell(0, 0, 0, false), one));
+        x.hold(0, 0, 0, 0);
+        x.hold(3, 0, 4, 0);
+        due("rounds", x.rounds(50), 50);
+        due("rounds", x.rounds(50), 50);
+        due("held", x.value(3, 0, 4), 99 + 190);
+    }
+
     public static void main(String[] args) throws InterruptedException {
         job("chain", RoomTest::chain);
         job("errors", RoomTest::errors);
@@ -177,6 +262,8 @@ public final class RoomTest {
         job("rounds", RoomTest::rounds);
         job("wide", RoomTest::wide);
         job("full", RoomTest::full);
+        job("paths", RoomTest::paths);
+        job("fullest", RoomTest::fullest);
         System.out.println(passed + " passed, " + failed + " failed");
         System.exit(failed == 0 ? 0 : 1);
     }
