@@ -1147,7 +1147,10 @@ public final class NoteDocument {
                 at = nextLikely[at];
             }
             if (at <= 0) {
-                makeRoom();
+                if (count >= cell.length) {
+                    grow();
+                    findAgain();
+                }
                 at = add(first, chain);
             }
             return Words.errorWith(Words.errorOf(word), at);
@@ -1170,14 +1173,7 @@ public final class NoteDocument {
             return (mixed ^ mixed >>> 15) & firstLikely.length - 1;
         }
 
-        /** Makes room for one more chain. */
-        private void makeRoom() {
-            if (count >= cell.length) {
-                grow();
-                findAgain();
-            }
-        }
-
+        /** Makes room for more chains, which are to be found again then. */
         private void grow() {
             int larger = cell.length * 2;
             cell = Arrays.copyOf(cell, larger);
@@ -1275,15 +1271,11 @@ public final class NoteDocument {
         }
 
         void ensure(int room) {
-            if (words.length - top < room) {
-                grow(top + room);
-            }
-        }
-
-        private void grow(int least) {
             int size = words.length;
-            int larger = size < LARGE ? Math.min(size * 4, LARGE) : size + size / 2;
-            words = Arrays.copyOf(words, Math.max(larger, least));
+            if (size - top < room) {
+                int larger = size < LARGE ? Math.min(size * 4, LARGE) : size + size / 2;
+                words = Arrays.copyOf(words, Math.max(larger, top + room));
+            }
         }
 
         /** Makes a row of that many values, to be filled. */
@@ -1440,9 +1432,7 @@ public final class NoteDocument {
                 }
             }
             top = end;
-            if (isRatherFull()) {
-                grow(top);
-            }
+            ensure(Math.min(words.length / 4, ENOUGH));
         }
 
         /** Marks the chains of all errors; only what stays is in the heap then. */
