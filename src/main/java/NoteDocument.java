@@ -1077,7 +1077,6 @@ public final class NoteDocument {
             state.refRow[node] = row;
             state.refColumn[node] = column;
             state.refToRow[node] = toRow;
-            state.torn[node] = false;
         }
 
         boolean isCellOf(int node, int grid) {
@@ -1486,7 +1485,6 @@ public final class NoteDocument {
         private int readCount;
         private int turn;
         private final int[] recordAhead = new int[ENTRIES];
-        private final int[] checkedAhead = new int[ENTRIES];
 
         Desk(State state, Heap heap) {
             this.state = state;
@@ -1495,12 +1493,11 @@ public final class NoteDocument {
 
         void remember() {
             System.arraycopy(state.record, 0, recordAhead, 0, ENTRIES);
-            System.arraycopy(checked, 0, checkedAhead, 0, ENTRIES);
         }
 
         void takeBack() {
             System.arraycopy(recordAhead, 0, state.record, 0, ENTRIES);
-            System.arraycopy(checkedAhead, 0, checked, 0, ENTRIES);
+            now++;
         }
 
         void beginFresh(int how) {
@@ -1590,8 +1587,8 @@ public final class NoteDocument {
             if (order[entry] > 0) {
                 low[reader] = Math.min(low[reader], order[entry]);
                 isInCircle[entry] = true;
-                // The chain of one cell has the number of that cell and 1.
-                return Words.IN_CIRCLE | (entry < CELLS ? entry + 1 : 0);
+                // Who reads this is in the circle, too, and has its own error then.
+                return Words.IN_CIRCLE;
             }
             boolean isAtHand = isFresh ? freshChecked[entry] == freshNow : checked[entry] == now;
             int record = isFresh ? freshRecord[entry] : state.record[entry];
@@ -1654,6 +1651,7 @@ public final class NoteDocument {
         }
 
         int writeCircle(int entry) {
+            // The chain of one cell has the number of that cell and 1.
             long value = Words.IN_CIRCLE | (entry < CELLS ? entry + 1 : 0);
             if (entry >= NOTE_ENTRY) {
                 int text = heap.open(2);
@@ -2132,8 +2130,6 @@ public final class NoteDocument {
      */
     private static final class Finder {
         private static final int TURNS = 1000000;
-        // A run makes at most 40 rows of 50 values, and notes each thing once.
-        private static final int RUN_ROOM = 40 * 51 + THINGS + 256;
         private static final int ANEW = -1;
 
         private final Desk desk;
@@ -2182,7 +2178,6 @@ public final class NoteDocument {
                 int top = stack[depth - 1];
                 desk.reader = top;
                 desk.missing = -1;
-                heap.ensure(RUN_ROOM);
                 if (at[depth - 1] == ANEW) {
                     runAnew(top);
                 } else {

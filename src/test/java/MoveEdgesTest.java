@@ -641,11 +641,80 @@ public final class MoveEdgesTest {
         CHECKS.due("none is torn", x.torn(), 0);
     }
 
+    /** Five rows of 9 to 5, a formula that is the last of 150 nodes, and three notes of 8 parts each. */
+    private static NoteDocument full() {
+        NoteDocument x = Make.document(5, 2);
+        for (int i = 0; i < 5; i++) {
+            x.set(0, i, 0, 9 - i);
+        }
+        Make.nodes(x, 149);
+        x.put(0, 0, 1, x.cell(0, 3, 0, false));
+        for (int note = 0; note < 3; note++) {
+            x.note();
+            for (int i = 0; i < 8; i++) {
+                x.show(note, 0, (note + i) % 4, 0, 0);
+            }
+        }
+        return x;
+    }
+
+    /** The last node, and the last part of the last note, go along, too. */
+    private static void lastOnes() {
+        CHECKS.promise("Promises 35 to 38 and 44, the last node and the last part");
+        String[] before = {"98769876", "87698769", "76987698"};
+        String[] torn = {"987!3987!3", "87!3987!39", "7!3987!398"};
+        for (int call = 0; call < 6; call++) {
+            NoteDocument x = full();
+            due(x, call, "6", before);
+            switch (call) {
+                case 0:
+                    x.insert(0, 0);
+                    due(x, call, "6", before);
+                    break;
+                case 1:
+                    x.remove(0, 4);
+                    due(x, call, "6", before);
+                    break;
+                case 2:
+                    CHECKS.due("one is torn", x.remove(0, 3), 1);
+                    due(x, call, "!3", torn);
+                    break;
+                case 3:
+                    CHECKS.due("none is torn", x.move(0, 3, 0, 4, 1), 0);
+                    due(x, call, "66", before);
+                    break;
+                case 4:
+                    CHECKS.due("one is torn", x.move(0, 1, 0, 3, 0), 1);
+                    due(x, call, "!3", torn);
+                    break;
+                default:
+                    CHECKS.due("sorted", x.sort(0, 0, 4, 0), 4);
+                    due(x, call, "6", before);
+            }
+            x.undo();
+            due(x, call, "6", before);
+            x.set(0, 2, 0, 5);
+            due(x, call, "6", "98569856", "85698569", "56985698");
+        }
+    }
+
+    private static void due(NoteDocument x, int call, String node, String... notes) {
+        String got = "";
+        for (int row = 0; row < x.rows(0); row++) {
+            got = got + (x.kind(0, row, 1) == 0 ? "" : Make.shown(x, 0, row, 1));
+        }
+        CHECKS.due("the last node, call " + call, got, node);
+        for (int i = 0; i < 3; i++) {
+            CHECKS.due("the note " + i + ", call " + call, Make.text(x, i), notes[i]);
+        }
+    }
+
     public static void main(String[] args) {
         inserts();
         removals();
         moves();
         sorts();
+        lastOnes();
         scenarios();
         goals();
         undone();

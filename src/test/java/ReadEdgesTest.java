@@ -343,6 +343,30 @@ public final class ReadEdgesTest {
         CHECKS.due("read once", x.runs(), 11);
         x.set(0, 0, 2, 1);
         CHECKS.due("and changed", x.value(0, 2, 2), 2);
+        notAskedFor();
+    }
+
+    /** A WHEN asks for one of its parts alone, also where what it depends on is not found yet, by whichever cell. */
+    private static void notAskedFor() {
+        for (int i = 0; i < 15; i++) {
+            NoteDocument x = new NoteDocument();
+            x.grid(3, 5);
+            x.grid(1, 2);
+            int one = x.number(1);
+            x.put(0, i / 5, i % 5, one);
+            x.put(1, 0, 0, one);
+            int source = x.cell(0, i / 5, i % 5, false);
+            int other = x.cell(1, 0, 0, false);
+            x.put(1, 0, 1, x.when(source, x.number(7), other));
+            CHECKS.due("the second part", x.value(1, 0, 1), 7);
+            CHECKS.due("the third one is not run", x.runs(), 2);
+            x.put(1, 0, 1, x.when(Make.two(x, Make.SUBTRACT, source, one), other, x.number(8)));
+            CHECKS.due("the third part", x.value(1, 0, 1), 8);
+            CHECKS.due("the second one is not run", x.runs(), 3);
+            x.put(1, 0, 1, Make.orElse(x, source, other));
+            CHECKS.due("the first part", x.value(1, 0, 1), 1);
+            CHECKS.due("the second one is not run", x.runs(), 4);
+        }
     }
 
     private static void calls() {
